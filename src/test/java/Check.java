@@ -1,0 +1,68 @@
+/** Compares answers with those that are due, and counts those that are not as due. */
+final class Check {
+    interface Call {
+        void run();
+    }
+
+    private static int looked;
+    private static int wrong;
+
+    private Check() {
+    }
+
+    static void same(String what, long got, long due) {
+        note(what, got == due, "answered " + got + ", due is " + due);
+    }
+
+    static void same(String what, double got, double due) {
+        note(what, got == due, "answered " + got + ", due is " + due);
+    }
+
+    static void yes(String what, boolean got) {
+        note(what, got, "answered false, due is true");
+    }
+
+    static void no(String what, boolean got) {
+        note(what, !got, "answered true, due is false");
+    }
+
+    /** There is no such artefact, program, release, train or experiment. */
+    static void noSuch(String what, Call call) {
+        isThrown(what, call, IndexOutOfBoundsException.class);
+    }
+
+    /** Another argument is out of its range. */
+    static void badArgument(String what, Call call) {
+        isThrown(what, call, IllegalArgumentException.class);
+    }
+
+    static void badState(String what, Call call) {
+        isThrown(what, call, IllegalStateException.class);
+    }
+
+    /** The class itself is due: a class below it would be one that the machine throws. */
+    private static void isThrown(String what, Call call, Class<? extends RuntimeException> due) {
+        Class<?> got = null;
+        try {
+            call.run();
+        } catch (RuntimeException thrown) {
+            got = thrown.getClass();
+        }
+        note(what, got == due, "threw " + got + ", due is " + due);
+    }
+
+    private static void note(String what, boolean isRight, String otherwise) {
+        looked++;
+        if (!isRight) {
+            wrong++;
+            System.out.println(what + ": " + otherwise);
+        }
+    }
+
+    static void finish() {
+        System.out.println(looked + " answers looked at, " + wrong + " of them wrong");
+        if (wrong != 0) {
+            System.exit(1);
+        }
+    }
+}
