@@ -6,6 +6,7 @@ public final class CanaryTest {
         beginsAnew();
         capital();
         capitalStays();
+        capitalNear20();
         pairsByOrder();
         verdictByPairs();
         verdictBySlowness();
@@ -59,7 +60,7 @@ public final class CanaryTest {
     private static void beginsAnew() {
         ReleaseHouse house = withCanary();
         Given.measures(house, 20, true, false, 1);
-        Given.measures(house, 20, false, true, 1);
+        Given.measures(house, 20, false, true, 40);
         house.pass(2);
         Check.same("33: another share is the same test", house.measure(0, 0, true, false, 1), 21);
         house.stop(1);
@@ -69,6 +70,10 @@ public final class CanaryTest {
         house.release(1, Given.program(house, Given.share(0, 10), Given.await(99)));
         house.pass(1);
         Check.same("33: the same candidate, anew", house.measure(0, 0, false, true, 1), 1);
+        Check.same("37: anew", house.badPart(0, 0, false), 1.0f);
+        Given.measures(house, 9, false, true, 1);
+        Given.measures(house, 10, true, false, 4);
+        Check.same("35: the slow ones are gone", house.verdict(0, 0), 2);
         house.release(Given.hotfix(house, 0), Given.program(house, Given.share(0, 10), Given.await(99)));
         house.pass(1);
         Check.same("33: another candidate, anew", house.measure(0, 0, false, true, 1), 1);
@@ -126,6 +131,28 @@ public final class CanaryTest {
         Check.same("36: by all too", house.verdictByAll(0, 0), 2);
     }
 
+    /** 1.5 to the 9th by 0.5 is 19.2, 1.5 to the 16th by 0.5 to the 5th is 20.5: none is nearer to 20. */
+    private static void capitalNear20() {
+        int[][] halvings = {{1, 9, 0}, {5, 16, 2}};
+        for (int[] h : halvings) {
+            ReleaseHouse house = withCanary();
+            Given.measures(house, h[0], true, false, 1);
+            Given.measures(house, h[0], false, true, 1);
+            Given.measures(house, h[1], true, true, 1);
+            Given.measures(house, h[1], false, false, 1);
+            double due = 1.0;
+            for (int i = 0; i < h[0] + h[1]; i++) {
+                due *= i < h[0] ? 0.5 : 1.5;
+            }
+            Check.same("34: near 20", house.capital(0, 0), due);
+            Check.same("35: bad from 20 on", house.verdict(0, 0), h[2]);
+            Check.same("36: the same", house.verdictByAll(0, 0), h[2]);
+            house.measure(0, 0, true, false, 1);
+            house.measure(0, 0, false, true, 1);
+            Check.same("34: stays from 20 on", house.capital(0, 0), h[2] == 2 ? due : due / 2);
+        }
+    }
+
     private static void pairsByOrder() {
         ReleaseHouse house = withCanary();
         boolean[] ofCandidate = {true, false, true, true, false, true, true};
@@ -172,6 +199,17 @@ public final class CanaryTest {
         Check.same("35: 10 of 11", other.verdict(0, 0), 0);
         other.measure(0, 0, true, false, 60000);
         Check.same("35: 10 of 12", other.verdict(0, 0), 2);
+        ReleaseHouse just = withCanary();
+        Given.measures(just, 9, true, false, 2);
+        just.measure(0, 0, true, false, 60000);
+        Given.measures(just, 10, false, false, 2);
+        Check.same("35: 9 of 10 are 9 tenths", just.verdict(0, 0), 0);
+        Check.same("36: the same", just.verdictByAll(0, 0), 0);
+        ReleaseHouse bad = withCanary();
+        Given.measures(bad, 10, true, false, 4);
+        Given.measures(bad, 10, false, true, 2);
+        Check.same("35: bad ones are as slow as good ones", bad.verdict(0, 0), 0);
+        Check.same("36: the same", bad.verdictByAll(0, 0), 0);
         ReleaseHouse faster = withCanary();
         Given.measures(faster, 20, true, false, 0);
         Given.measures(faster, 20, false, false, 60000);

@@ -224,12 +224,13 @@ public final class ControllerTest {
         house.release(Given.easy(house, 0), sharing);
         house.release(Given.easy(house, 1), waiting);
         house.stop(2);
+        house.release(Given.easy(house, 2), waiting);
         house.pass(1);
         house.release(Given.hotfix(house, 0), sharing);
         house.die(true);
         Check.badState("17: told, but alive", house::rise);
         house.pass(1);
-        Check.same("17: neither overtaken nor stopped", house.rise(), 2);
+        Check.same("17: neither overtaken nor stopped", house.rise(), 3);
         Check.no("18: alive", house.isDead());
         Check.badState("17: alive again", house::rise);
         Check.same("17: overtaken by the effect", house.state(1), 1);

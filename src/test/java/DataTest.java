@@ -5,6 +5,7 @@ public final class DataTest {
         expand();
         units();
         migrate();
+        lastOnes();
         halt();
         contract();
         Check.finish();
@@ -87,6 +88,19 @@ public final class DataTest {
         Check.same("29: from one that is not open", house.units(0, 0), 2);
         house.migrate(1, 1, 0);
         Check.same("29: one for each service", house.halt(1), 0);
+    }
+
+    private static void lastOnes() {
+        ReleaseHouse house = new ReleaseHouse();
+        house.expand(3, 7);
+        house.release(Given.withData(house, 3, 129, 0), Given.program(house, Given.promote(2)));
+        house.pass(1);
+        house.migrate(3, 0, 7);
+        house.pass(1);
+        Check.same("32: the last service and schema", house.units(3, 7), 1);
+        Check.same("30: the last service", house.halt(3), 1);
+        house.expand(3, 6);
+        Check.badState("29: one that is live in one place does not read it", () -> house.migrate(3, 0, 6));
     }
 
     private static void halt() {

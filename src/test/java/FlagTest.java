@@ -142,6 +142,8 @@ public final class FlagTest {
         Check.no("49: set anew, killed still", house.isOn(5, 0));
         Check.no("49: is again", house.kill(5));
         Check.yes("49: on", house.isOn(5, 0));
+        Check.yes("49: the first flag", house.kill(0));
+        Check.yes("49: the last flag", house.kill(7));
         Check.badArgument("49: no such flag", () -> house.kill(8));
         Check.badArgument("49: below 0", () -> house.kill(-1));
     }
@@ -213,6 +215,7 @@ public final class FlagTest {
         Check.same("53: below it", house.experiment(0, 7, 9, 9, 4), 1);
         Check.same("53: above it", house.experiment(0, 0, 21, 99, 3), 2);
         Check.same("53: in another layer", house.experiment(2, 0, 0, 99, 2), 3);
+        Check.same("53: of the last seat alone", new ReleaseHouse().experiment(2, 7, 99, 99, 4), 0);
         house.conclude(0);
         for (int i = 4; i < 8; i++) {
             Check.same("53: seats that are free", house.experiment(0, 0, 10 + i, 10 + i, 2), i);
@@ -257,7 +260,7 @@ public final class FlagTest {
         house.flag(0, 100, -1);
         for (int layer = 0; layer < 3; layer++) {
             house.experiment(layer, 0, 20, 70, 2 + layer);
-            for (int customer = 0; customer < 200; customer += 3) {
+            for (int customer = 0; customer < 200; customer++) {
                 int seat = (61 * customer + 17 * layer) % 100;
                 boolean isIn = seat >= 20 && seat <= 70;
                 Check.same("55: by the seat", house.arm(layer, customer),

@@ -11,6 +11,7 @@ public final class HoldTest {
         left();
         capacityOfRing();
         capacityOfCandidates();
+        capacityOfOneAnew();
         capacityBehindOvertaking();
         train();
         board();
@@ -110,6 +111,7 @@ public final class HoldTest {
         ReleaseHouse house = new ReleaseHouse();
         Check.yes("41: lost", house.zone(1, 0));
         Check.yes("41: another one", house.zone(1, 2));
+        Check.yes("41: of the last ring", house.zone(2, 2));
         Check.same("41: 4 places each", house.left(1), 4);
         Check.same("41: not in another ring", house.left(0), 12);
         Check.no("41: there again", house.zone(1, 0));
@@ -208,6 +210,20 @@ public final class HoldTest {
         house.release(1, lower);
         Check.same("15: 1 and 1, 1 and 2", house.pass(3), 3);
         Check.same("15: PROMOTE does not ask for that", house.pass(1), 1);
+    }
+
+    /** The share in the ring itself is another one behind the step; the other rings count as they are. */
+    private static void capacityOfOneAnew() {
+        ReleaseHouse house = new ReleaseHouse();
+        int program = Given.program(house, Given.share(1, 60), Given.share(0, 10), Given.share(0, 60), Given.await(99));
+        house.release(Given.easy(house, 0), program);
+        Check.same("15: 2 and 1, 2 and 2", house.pass(3), 3);
+        int inThree = Given.program(house, Given.share(2, 60), Given.share(1, 50), Given.share(0, 50), Given.await(99));
+        int hot = Given.program(house, Given.share(0, 60), Given.await(99));
+        house.release(Given.easy(house, 1), inThree);
+        house.pass(3);
+        house.release(Given.hotfix(house, 1), hot);
+        Check.same("14: what it overtakes is gone in all rings", house.why(2), 0);
     }
 
     /** The hotfix overtakes what has candidates of 4 places in two rings. */

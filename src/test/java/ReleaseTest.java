@@ -17,6 +17,7 @@ public final class ReleaseTest {
         whyRival();
         whyFromNowOn();
         whyEnded();
+        skipLosesCandidates();
         Check.finish();
     }
 
@@ -370,5 +371,21 @@ public final class ReleaseTest {
         Check.same("14: held or not", house.why(2), 0);
         house.pass(1);
         Check.same("14: skipped", house.why(2), 14);
+    }
+
+    private static void skipLosesCandidates() {
+        ReleaseHouse house = new ReleaseHouse();
+        int old = Given.easy(house, 0);
+        Given.stable(house, 0, Given.program(house, Given.promote(2)));
+        house.release(old, Given.program(house, Given.share(0, 10), Given.promote(1), Given.share(0, 20), Given.share(2, 10)));
+        house.pass(3);
+        Check.same("21: a candidate", house.candidate(0, 0), old);
+        int ahead = house.effects();
+        house.pass(1);
+        Check.same("12: a newer one is stable there", house.state(1), 4);
+        Check.same("13: where it was", house.at(1), 3);
+        Check.same("21: lost by the skip", house.candidate(0, 0), Given.NONE);
+        Check.same("20: what it promoted stays", house.stable(0, 1), old);
+        Check.same("19: an effect", house.effects(), ahead + 1);
     }
 }

@@ -8,6 +8,7 @@ public final class RingTest {
         seers();
         begin();
         fortySessions();
+        lastOnes();
         end();
         wayOut();
         Check.finish();
@@ -149,6 +150,14 @@ public final class RingTest {
         house.end(1, 199);
         Check.same("25: there are 39", house.begin(0, 5), artefact);
         Check.badState("25: there are 40 again", () -> house.begin(0, 6));
+    }
+
+    private static void lastOnes() {
+        ReleaseHouse house = new ReleaseHouse();
+        int artefact = Given.stable(house, 3, Given.program(house, Given.promote(2)));
+        Check.same("23: the last service and customer", house.sees(3, 199), artefact);
+        Check.same("25: the last service and customer", house.begin(3, 199), artefact);
+        Check.same("26: the last service and customer", house.end(3, 199), artefact);
     }
 
     private static void end() {
