@@ -40,15 +40,20 @@ final class Check {
         isThrown(what, call, IllegalStateException.class);
     }
 
-    /** The class itself is due: a class below it would be one that the machine throws. */
     private static void isThrown(String what, Call call, Class<? extends RuntimeException> due) {
-        Class<?> got = null;
+        RuntimeException got = null;
         try {
             call.run();
         } catch (RuntimeException thrown) {
-            got = thrown.getClass();
+            got = thrown;
         }
-        note(what, got == due, "threw " + got + ", due is " + due);
+        note(what, got != null && isByTheHouse(got) && got.getClass() == due, "threw " + got + ", due is " + due);
+    }
+
+    /** The machine and the library throw some of the same classes: what counts is who has thrown it. */
+    static boolean isByTheHouse(RuntimeException thrown) {
+        StackTraceElement[] trace = thrown.getStackTrace();
+        return trace.length > 0 && trace[0].getClassName().equals("ReleaseHouse");
     }
 
     private static void note(String what, boolean isRight, String otherwise) {

@@ -203,7 +203,8 @@ public final class HoldTest {
         house.release(0, program);
         house.pass(2);
         house.stop(2);
-        house.release(0, Given.program(house, Given.share(0, 100), Given.share(1, 50), Given.share(2, 50), Given.share(2, 51)));
+        house.release(0, Given.program(house, Given.share(0, 100), Given.share(1, 50), Given.share(2, 50),
+                Given.share(2, 51)));
         Check.same("15: 2 and 1 and 1", house.pass(3), 3);
         Check.same("14: 2 and 1 and 2", house.why(3), 5);
         house.stop(1);
@@ -254,7 +255,8 @@ public final class HoldTest {
         int inTwo = Given.program(other, Given.share(1, 60), Given.share(0, 60), Given.await(99));
         other.release(Given.easy(other, 0), inTwo);
         other.pass(2);
-        other.release(Given.hotfix(other, 0), Given.program(other, Given.share(0, 60), Given.share(2, 60), Given.await(9)));
+        other.release(Given.hotfix(other, 0),
+                Given.program(other, Given.share(0, 60), Given.share(2, 60), Given.await(9)));
         Check.same("14: gone in the other ring too", other.why(1), 0);
         Check.same("15: both go on", other.pass(2), 2);
     }

@@ -254,7 +254,8 @@ public final class ReleaseTest {
         Check.same("14: waits", house.why(0), 8);
         house.pass(1);
         Check.same("14: its artefact is not the candidate", house.why(0), 9);
-        house.release(Given.easy(house, 0), Given.program(house, Given.approvals(1), Given.byTrain(), Given.promote(2)));
+        house.release(Given.easy(house, 0),
+                Given.program(house, Given.approvals(1), Given.byTrain(), Given.promote(2)));
         Check.same("14: nobody has approved it", house.why(1), 10);
         house.approve(1, 1);
         Check.same("14: somebody has", house.why(1), 0);
@@ -377,7 +378,8 @@ public final class ReleaseTest {
         ReleaseHouse house = new ReleaseHouse();
         int old = Given.easy(house, 0);
         Given.stable(house, 0, Given.program(house, Given.promote(2)));
-        house.release(old, Given.program(house, Given.share(0, 10), Given.promote(1), Given.share(0, 20), Given.share(2, 10)));
+        house.release(old, Given.program(house, Given.share(0, 10), Given.promote(1), Given.share(0, 20),
+                Given.share(2, 10)));
         house.pass(3);
         Check.same("21: a candidate", house.candidate(0, 0), old);
         int ahead = house.effects();
