@@ -4,10 +4,25 @@ final class Check {
         void run();
     }
 
+    private static int tests;
     private static int looked;
     private static int wrong;
+    /** The name of the test that runs, empty if none does. */
+    private static String running = "";
 
     private Check() {
+    }
+
+    /** A test of one sentence: its name begins with the number of the promise, and tells the sentence. */
+    static void test(String name, Call body) {
+        tests++;
+        running = name + " - ";
+        try {
+            body.run();
+        } catch (RuntimeException thrown) {
+            note("the test itself", false, "threw " + thrown);
+        }
+        running = "";
     }
 
     static void same(String what, long got, long due) {
@@ -16,6 +31,10 @@ final class Check {
 
     static void same(String what, double got, double due) {
         note(what, got == due, "answered " + got + ", due is " + due);
+    }
+
+    static void same(String what, String got, String due) {
+        note(what, got.equals(due), "answered " + got + ", due is " + due);
     }
 
     static void yes(String what, boolean got) {
@@ -40,7 +59,7 @@ final class Check {
         isThrown(what, call, IllegalStateException.class);
     }
 
-    private static void isThrown(String what, Call call, Class<? extends RuntimeException> due) {
+    static void isThrown(String what, Call call, Class<? extends RuntimeException> due) {
         RuntimeException got = null;
         try {
             call.run();
@@ -53,19 +72,24 @@ final class Check {
     /** The machine and the library throw some of the same classes: what counts is who has thrown it. */
     static boolean isByTheHouse(RuntimeException thrown) {
         StackTraceElement[] trace = thrown.getStackTrace();
-        return trace.length > 0 && trace[0].getClassName().equals("ReleaseHouse");
+        if (trace.length == 0) {
+            return false;
+        }
+        String by = trace[0].getClassName();
+        return by.equals("ReleaseHouse") || by.startsWith("ReleaseHouse$");
     }
 
     private static void note(String what, boolean isRight, String otherwise) {
         looked++;
         if (!isRight) {
             wrong++;
-            System.out.println(what + ": " + otherwise);
+            System.out.println(running + what + ": " + otherwise);
         }
     }
 
     static void finish() {
-        System.out.println(looked + " answers looked at, " + wrong + " of them wrong");
+        String inTests = tests > 0 ? " in " + tests + " tests" : "";
+        System.out.println(looked + " answers looked at" + inTests + ", " + wrong + " of them wrong");
         if (wrong != 0) {
             System.exit(1);
         }

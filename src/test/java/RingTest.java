@@ -86,7 +86,7 @@ public final class RingTest {
         boolean[] saw = new boolean[200];
         for (int share : shares) {
             house.pass(1);
-            for (int customer = 0; customer < 200; customer++) {
+            for (int customer = 0; customer < 200; customer += 3) {
                 boolean isSeen = house.sees(2, customer) == artefact;
                 Check.no("23: goes as the share grows", saw[customer] && !isSeen);
                 boolean isDue = customer % 10 >= 4 && (37 * customer + 22) % 100 < share;
