@@ -25,6 +25,13 @@ public final class ArtefactEdgesTest {
             Refusal.badArgument("behind now", ReleaseHouse::new, house -> house.train(0));
             Check.same("the first minute behind it", new ReleaseHouse().train(1), 0);
         });
+        Check.test("1: an object is used for at most 512 calls", () -> {
+            ReleaseHouse house = new ReleaseHouse();
+            for (int i = 1; i < 512; i++) {
+                house.setPlan(i % 200, i % 7);
+            }
+            Check.same("the last one of them", house.program(), 0);
+        });
         Check.test("1: NONE = -1", () -> Check.same("NONE", NONE, -1));
     }
 
@@ -117,7 +124,8 @@ public final class ArtefactEdgesTest {
         Check.test("2: throws if writes is not read", () -> {
             for (int schema = 0; schema < 8; schema++) {
                 int s = schema;
-                Check.same("reads this alone", new ReleaseHouse().artefact(0, 0, 0, 0, NONE, 1 << s, s, false, true), 0);
+                Check.same("reads this alone",
+                        new ReleaseHouse().artefact(0, 0, 0, 0, NONE, 1 << s, s, false, true), 0);
                 Refusal.badArgument("reads all but " + s, none,
                         house -> house.artefact(0, 0, 0, 0, NONE, 255 - (1 << s), s, false, true));
             }
@@ -194,7 +202,9 @@ public final class ArtefactEdgesTest {
     }
 
     private static void forbidsByNeeds() {
-        int[][] rows = {{255, 255, 0}, {127, 255, 3}, {254, 255, 3}, {128, 128, 0}, {127, 128, 3}, {0, 1, 3}, {255, 1, 0}};
+        int[][] rows = {
+            {255, 255, 0}, {127, 255, 3}, {254, 255, 3}, {128, 128, 0}, {127, 128, 3}, {0, 1, 3}, {255, 1, 0},
+        };
         for (int[] row : rows) {
             ReleaseHouse house = new ReleaseHouse();
             int keeper = needs(house, 0, row[0], 0, NONE);
@@ -390,6 +400,17 @@ public final class ArtefactEdgesTest {
             house.release(1, program);
             house.pass(1);
             Check.yes("one is live", house.isLive(0) && !house.isLive(1));
+            Check.same("no pair", house.forbidden(), 0);
+        });
+        Check.test("6: pairs that may are none of these", () -> {
+            ReleaseHouse house = new ReleaseHouse();
+            int program = Given.program(house, Given.promote(0), Given.promote(1));
+            for (int service = 0; service < 4; service++) {
+                house.release(Given.easy(house, service), program);
+            }
+            house.release(Given.easy(house, 0), Given.program(house, Given.share(2, 100)));
+            house.pass(2);
+            Check.yes("five are live", house.isLive(0) && house.isLive(3) && house.isLive(4));
             Check.same("no pair", house.forbidden(), 0);
         });
         Check.test("6: at no moment do two live together that the proof forbids", () -> {

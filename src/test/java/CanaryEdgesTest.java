@@ -67,6 +67,14 @@ public final class CanaryEdgesTest {
             Check.same("of the candidate again", house.measure(0, 0, true, true, 60000), 41);
             Check.same("of another test", withCanaries().measure(3, 0, true, true, 0), 1);
         });
+        Check.test("33: as many of one as an object is used for", () -> {
+            ReleaseHouse house = withCanary();
+            for (int i = 1; i <= 480; i++) {
+                Check.same("its number", house.measure(0, 0, true, i == 480, i), i);
+            }
+            isVerdict("no pair", house, 0);
+            Check.same("bad", house.badPart(0, 0, true), 1.0f / 480);
+        });
         Check.test("33: throws if there is no candidate there", () -> {
             Refusal.World lost = () -> {
                 ReleaseHouse house = withCanary();
@@ -113,14 +121,19 @@ public final class CanaryEdgesTest {
         Check.same(what + ", bad of the candidate", house.badPart(0, 0, true), 0.0f);
         Check.same(what + ", bad of the stable one", house.badPart(0, 0, false), 0.0f);
         if (isTest) {
-            Check.same(what + ", the first measure", house.measure(0, 0, true, false, 1), 1);
-            Check.same(what + ", of the other one too", house.measure(0, 0, false, false, 1), 1);
+            Check.same(what + ", the first measure", house.measure(0, 0, true, false, 8), 1);
+            Check.same(what + ", of the other one too", house.measure(0, 0, false, false, 2), 1);
+            Check.same(what + ", it is good", house.badPart(0, 0, true), 0.0f);
+            Check.same(what + ", the other one too", house.badPart(0, 0, false), 0.0f);
+            Given.measures(house, 9, true, false, 8);
+            Given.measures(house, 9, false, false, 2);
+            isVerdict(what + ", slow by its own measures", house, 2);
         }
     }
 
     private static ReleaseHouse withBadCanary() {
         ReleaseHouse house = withCanary();
-        Given.measures(house, 20, true, true, 60000);
+        Given.measures(house, 20, true, true, 0);
         Given.measures(house, 19, false, false, 0);
         Given.measures(house, 1, false, true, 0);
         Check.same("bad", house.verdict(0, 0), 2);
@@ -152,8 +165,8 @@ public final class CanaryEdgesTest {
             house.release(Given.easy(house, 0), Given.program(house, Given.share(0, 5)));
             house.pass(1);
             isNew("the next candidate", house, true);
-            Given.measures(house, 9, true, true, 1);
-            Given.measures(house, 9, false, false, 1);
+            Given.measures(house, 9, true, true, 0);
+            Given.measures(house, 9, false, false, 60000);
             house.stop(1);
             Check.same("gone back, with the candidate", house.stable(0, 0) + house.candidate(0, 0), 2);
             isNew("gone back", house, true);
@@ -346,6 +359,15 @@ public final class CanaryEdgesTest {
             isVerdict("2 above", measured(10, 8, 10, 3), 2);
             isVerdict("far below", measured(20, 0, 20, 60000), 1);
         });
+        Check.test("35: a bad measure is as slow as a good one", () -> {
+            ReleaseHouse house = measured(10, 4, 0, 0);
+            Given.measures(house, 10, false, true, 2);
+            isVerdict("of the stable one, 1 above", house, 0);
+            ReleaseHouse other = measured(0, 0, 10, 2);
+            Given.measures(other, 5, true, true, 8);
+            Given.measures(other, 5, true, false, 8);
+            isVerdict("of the candidate, 2 above", other, 2);
+        });
         Check.test("35: bucket 0 with 0 milliseconds, 1 with 1, 2 with 2 or 3, 3 with 4 to 7, and so on", () -> {
             int[] last = {0, 1, 3, 7, 15, 31, 63, 127, 255, 511, 1023, 2047, 4095, 8191, 16383, 32767, 60000};
             for (int bucket = 2; bucket < last.length; bucket++) {
@@ -357,7 +379,9 @@ public final class CanaryEdgesTest {
             }
         });
         Check.test("35: at least 9 tenths of its measures", () -> {
-            int[][] rows = {{9, 1, 0}, {8, 2, 2}, {10, 1, 0}, {10, 2, 2}, {18, 2, 0}, {17, 2, 2}, {17, 3, 2}, {27, 3, 0}};
+            int[][] rows = {
+                {9, 1, 0}, {8, 2, 2}, {10, 1, 0}, {10, 2, 2}, {18, 2, 0}, {17, 2, 2}, {17, 3, 2}, {27, 3, 0},
+            };
             for (int[] row : rows) {
                 ReleaseHouse house = measured(row[0], 1, 10, 1);
                 Given.measures(house, row[1], true, false, 60000);

@@ -16,33 +16,21 @@ public final class ControllerEdgesTest {
         Check.finish();
     }
 
-    private static int released(ReleaseHouse house, int service, int[]... steps) {
-        return house.release(Given.easy(house, service), Given.program(house, steps));
-    }
-
-    private static ReleaseHouse atMinute(int minute) {
-        ReleaseHouse house = new ReleaseHouse();
-        for (int left = minute; left > 0; left -= Math.min(left, 200)) {
-            house.pass(Math.min(left, 200));
-        }
-        return house;
-    }
-
     private static void pass() {
         Check.test("15: minutes: 1 to 200", () -> Refusal.range(ReleaseHouse::new, 1, 200, ReleaseHouse::pass));
         Check.test("15: throws if more than 20000 would have gone by", () -> {
-            Refusal.badState("one more", () -> atMinute(20000), house -> house.pass(1));
-            Refusal.badState("the last 200 and one more", () -> atMinute(19801), house -> house.pass(200));
-            Check.same("the last 200", atMinute(19800).pass(200), 0);
-            Check.same("the last one", atMinute(19999).pass(1), 0);
+            Refusal.badState("one more", () -> Given.atMinute(20000), house -> house.pass(1));
+            Refusal.badState("the last 200 and one more", () -> Given.atMinute(19801), house -> house.pass(200));
+            Check.same("the last 200", Given.atMinute(19800).pass(200), 0);
+            Check.same("the last one", Given.atMinute(19999).pass(1), 0);
         });
         Check.test("15: of several exceptions it is the first one", () -> {
-            Refusal.badArgument("argument and state", () -> atMinute(20000), house -> house.pass(201));
-            Refusal.badArgument("below 0 and state", () -> atMinute(20000), house -> house.pass(0));
+            Refusal.badArgument("argument and state", () -> Given.atMinute(20000), house -> house.pass(201));
+            Refusal.badArgument("below 0 and state", () -> Given.atMinute(20000), house -> house.pass(0));
         });
         Check.test("15: the last minute is one like another", () -> {
-            ReleaseHouse house = atMinute(19999);
-            int release = released(house, 0, Given.promote(0));
+            ReleaseHouse house = Given.atMinute(19999);
+            int release = Given.released(house, 0, Given.promote(0));
             house.train(20000);
             Check.same("a step", house.pass(1), 1);
             Check.same("done", house.state(release), 2);
@@ -52,8 +40,8 @@ public final class ControllerEdgesTest {
             ReleaseHouse house = new ReleaseHouse();
             ReleaseHouse other = new ReleaseHouse();
             for (ReleaseHouse h : new ReleaseHouse[] {house, other}) {
-                released(h, 0, Given.share(0, 5), Given.await(7), Given.promote(0), Given.await(100));
-                released(h, 1, Given.byTrain(), Given.promote(1));
+                Given.released(h, 0, Given.share(0, 5), Given.await(7), Given.promote(0), Given.await(100));
+                Given.released(h, 1, Given.byTrain(), Given.promote(1));
                 h.train(20);
                 h.board(0, 1);
             }
@@ -70,12 +58,13 @@ public final class ControllerEdgesTest {
         Check.test("15: how many steps are noted in them: none", () -> {
             Check.same("no release", new ReleaseHouse().pass(200), 0);
             ReleaseHouse house = new ReleaseHouse();
-            released(house, 0, Given.approvals(1));
+            Given.released(house, 0, Given.approvals(1));
             Check.same("one that does not go on", house.pass(200), 0);
         });
         Check.test("15: a release does one step a minute at most", () -> {
             ReleaseHouse house = new ReleaseHouse();
-            int release = released(house, 0, Given.await(0), Given.share(0, 5), Given.approvals(0), Given.promote(0));
+            int release = Given.released(house, 0, Given.await(0), Given.share(0, 5),
+                    Given.approvals(0), Given.promote(0));
             for (int i = 1; i <= 4; i++) {
                 Check.same("one", house.pass(1), 1);
                 Check.same("at", house.at(release), i);
@@ -84,7 +73,7 @@ public final class ControllerEdgesTest {
         });
         Check.test("15: steps without an effect are noted too", () -> {
             ReleaseHouse house = new ReleaseHouse();
-            released(house, 0, Given.promote(0), Given.promote(0), Given.share(0, 9), Given.drain(0));
+            Given.released(house, 0, Given.promote(0), Given.promote(0), Given.share(0, 9), Given.drain(0));
             Check.same("four", house.pass(4), 4);
         });
         Check.test("15: skips by the controller included", () -> {
@@ -109,7 +98,7 @@ public final class ControllerEdgesTest {
     private static ReleaseHouse withBadCanary() {
         ReleaseHouse house = new ReleaseHouse();
         Given.stable(house, 0, Given.program(house, Given.promote(0)));
-        released(house, 0, Given.share(0, 50), Given.judge(0));
+        Given.released(house, 0, Given.share(0, 50), Given.judge(0));
         house.pass(1);
         Given.measures(house, 8, true, true, 1);
         Given.measures(house, 8, false, false, 1);
@@ -119,16 +108,16 @@ public final class ControllerEdgesTest {
     private static void order() {
         Check.test("15: it is one minute later, ahead of the controller", () -> {
             ReleaseHouse house = new ReleaseHouse();
-            int release = released(house, 0, Given.await(1));
+            int release = Given.released(house, 0, Given.await(1));
             house.freeze(0, 1, 1, 3);
-            int frozen = released(house, 1, Given.share(0, 5));
+            int frozen = Given.released(house, 1, Given.share(0, 5));
             Check.same("one of two", house.pass(1), 1);
             Check.same("it has waited", house.state(release), 2);
             Check.same("it is frozen", house.at(frozen), 0);
         });
         Check.test("15: the data come ahead of the controller", () -> {
             ReleaseHouse house = new ReleaseHouse();
-            released(house, 0, Given.promote(0));
+            Given.released(house, 0, Given.promote(0));
             house.pass(1);
             Check.same("nothing in its first minute", house.units(0, 0), 0);
             house.pass(1);
@@ -150,14 +139,14 @@ public final class ControllerEdgesTest {
         });
         Check.test("15: the trains come ahead of the controller", () -> {
             ReleaseHouse house = new ReleaseHouse();
-            int release = released(house, 0, Given.byTrain());
+            int release = Given.released(house, 0, Given.byTrain());
             house.train(1);
             house.board(0, release);
             Check.same("it goes on in that minute", house.pass(1), 1);
         });
         Check.test("15: one that comes to a TRAIN step in that minute is late", () -> {
             ReleaseHouse house = new ReleaseHouse();
-            int release = released(house, 0, Given.await(0), Given.byTrain());
+            int release = Given.released(house, 0, Given.await(0), Given.byTrain());
             house.train(1);
             house.board(0, release);
             house.pass(1);
@@ -165,8 +154,8 @@ public final class ControllerEdgesTest {
         });
         Check.test("15: the controller, if it is alive; the rest goes on", () -> {
             ReleaseHouse house = new ReleaseHouse();
-            released(house, 0, Given.promote(0), Given.await(99));
-            int boarding = released(house, 1, Given.byTrain());
+            Given.released(house, 0, Given.promote(0), Given.await(99));
+            int boarding = Given.released(house, 1, Given.byTrain());
             house.die(true);
             house.pass(1);
             house.train(2);
@@ -180,7 +169,7 @@ public final class ControllerEdgesTest {
     private static void turns() {
         Check.test("15: those of hotfixes first", () -> {
             ReleaseHouse house = new ReleaseHouse();
-            int normal = released(house, 0, Given.promote(0));
+            int normal = Given.released(house, 0, Given.promote(0));
             int hotfix = house.release(Given.hotfix(house, 0), 0);
             house.pass(1);
             Check.same("it is stable", house.state(hotfix), 2);
@@ -202,7 +191,7 @@ public final class ControllerEdgesTest {
         });
         Check.test("15: as they are when it is their turn: one that is overtaken", () -> {
             ReleaseHouse house = new ReleaseHouse();
-            int normal = released(house, 0, Given.share(0, 5), Given.await(0), Given.await(0));
+            int normal = Given.released(house, 0, Given.share(0, 5), Given.await(0), Given.await(0));
             house.pass(1);
             house.release(Given.hotfix(house, 0), Given.program(house, Given.share(0, 5), Given.await(99)));
             Check.same("one step", house.pass(1), 1);
@@ -210,7 +199,7 @@ public final class ControllerEdgesTest {
         });
         Check.test("15: as they are when it is their turn: one that runs again", () -> {
             ReleaseHouse house = new ReleaseHouse();
-            int normal = released(house, 0, Given.await(0), Given.share(0, 5), Given.await(99));
+            int normal = Given.released(house, 0, Given.await(0), Given.share(0, 5), Given.await(99));
             house.pass(2);
             house.release(Given.hotfix(house, 0), Given.program(house, Given.share(0, 5), Given.await(0)));
             house.pass(1);
@@ -220,9 +209,9 @@ public final class ControllerEdgesTest {
         });
         Check.test("15: as they are when it is their turn: one whose rival has just ended", () -> {
             ReleaseHouse house = new ReleaseHouse();
-            released(house, 0, Given.share(0, 5), Given.await(2));
+            Given.released(house, 0, Given.share(0, 5), Given.await(2));
             house.pass(1);
-            int next = released(house, 0, Given.share(0, 6));
+            int next = Given.released(house, 0, Given.share(0, 6));
             house.pass(1);
             Check.same("the rival waits", house.at(next), 0);
             Check.same("both do a step", house.pass(1), 2);
@@ -232,9 +221,10 @@ public final class ControllerEdgesTest {
     private static void overtaking() {
         Check.test("15: when a release is overtaken, it loses its candidates, in all rings", () -> {
             ReleaseHouse house = new ReleaseHouse();
-            released(house, 0, Given.share(0, 5), Given.share(1, 5), Given.share(2, 5), Given.await(99));
+            Given.released(house, 0, Given.share(0, 5), Given.share(1, 5), Given.share(2, 5), Given.await(99));
             house.pass(3);
-            int hotfix = house.release(Given.hotfix(house, 0), Given.program(house, Given.share(1, 9), Given.await(99)));
+            int hotfix = house.release(Given.hotfix(house, 0),
+                    Given.program(house, Given.share(1, 9), Given.await(99)));
             house.pass(1);
             Check.same("overtaken", house.state(0), 1);
             Check.same("lost in the ring 0", house.candidate(0, 0), NONE);
@@ -244,7 +234,7 @@ public final class ControllerEdgesTest {
         });
         Check.test("15: by PROMOTE too, without a candidate there", () -> {
             ReleaseHouse house = new ReleaseHouse();
-            released(house, 0, Given.share(0, 5), Given.share(1, 5), Given.await(99));
+            Given.released(house, 0, Given.share(0, 5), Given.share(1, 5), Given.await(99));
             house.pass(2);
             int hotfix = house.release(Given.hotfix(house, 0), Given.program(house, Given.promote(0), Given.await(9)));
             house.pass(1);
@@ -255,11 +245,12 @@ public final class ControllerEdgesTest {
         });
         Check.test("15: with their approvals", () -> {
             ReleaseHouse house = new ReleaseHouse();
-            int normal = released(house, 0, Given.approvals(2), Given.share(0, 5), Given.await(99));
+            int normal = Given.released(house, 0, Given.approvals(2), Given.share(0, 5), Given.await(99));
             house.approve(normal, 1);
             house.approve(normal, 2);
             house.pass(2);
-            int hotfix = house.release(Given.hotfix(house, 0), Given.program(house, Given.share(0, 5), Given.await(99)));
+            int hotfix = house.release(Given.hotfix(house, 0),
+                    Given.program(house, Given.share(0, 5), Given.await(99)));
             house.pass(1);
             house.stop(hotfix);
             Check.same("from its first step on", house.at(normal), 0);
@@ -268,8 +259,8 @@ public final class ControllerEdgesTest {
         });
         Check.test("15: all overtaken releases of that service", () -> {
             ReleaseHouse house = new ReleaseHouse();
-            int inThis = released(house, 0, Given.share(0, 5), Given.await(99));
-            int inThat = released(house, 0, Given.share(1, 5), Given.await(99));
+            int inThis = Given.released(house, 0, Given.share(0, 5), Given.await(99));
+            int inThat = Given.released(house, 0, Given.share(1, 5), Given.await(99));
             house.pass(1);
             int both = house.release(Given.hotfix(house, 0),
                     Given.program(house, Given.share(0, 5), Given.share(1, 5), Given.await(99)));
@@ -285,8 +276,8 @@ public final class ControllerEdgesTest {
     /** The controller is dead; the release 0 was about to be done. */
     private static ReleaseHouse withDead(boolean isBehind) {
         ReleaseHouse house = new ReleaseHouse();
-        released(house, 0, Given.promote(0));
-        released(house, 1, Given.promote(0));
+        Given.released(house, 0, Given.promote(0));
+        Given.released(house, 1, Given.promote(0));
         house.die(isBehind);
         Check.same("nothing is noted", house.pass(1), 0);
         return house;
@@ -300,7 +291,7 @@ public final class ControllerEdgesTest {
         Check.test("16: or when it has been told so, to die otherwise", () -> {
             for (int way = 0; way < 2; way++) {
                 ReleaseHouse house = new ReleaseHouse();
-                released(house, 0, Given.promote(0));
+                Given.released(house, 0, Given.promote(0));
                 house.die(way == 0);
                 house.die(way == 1);
                 house.pass(1);
@@ -309,7 +300,7 @@ public final class ControllerEdgesTest {
         });
         Check.test("16: it dies at the next step that goes on", () -> {
             ReleaseHouse house = new ReleaseHouse();
-            int waiting = released(house, 0, Given.await(3));
+            int waiting = Given.released(house, 0, Given.await(3));
             house.die(false);
             house.pass(2);
             Check.no("no step went on", house.isDead());
@@ -353,7 +344,7 @@ public final class ControllerEdgesTest {
             for (int[] kind : kinds) {
                 for (int way = 0; way < 2; way++) {
                     ReleaseHouse house = new ReleaseHouse();
-                    int release = released(house, 0, kind);
+                    int release = Given.released(house, 0, kind);
                     house.die(way == 1);
                     house.pass(1);
                     Check.yes("dead at the kind " + kind[0], house.isDead());
@@ -363,7 +354,7 @@ public final class ControllerEdgesTest {
         });
         Check.test("16: at a TRAIN step, which it is still taken for", () -> {
             ReleaseHouse house = new ReleaseHouse();
-            int release = released(house, 0, Given.byTrain(), Given.await(9));
+            int release = Given.released(house, 0, Given.byTrain(), Given.await(9));
             house.train(1);
             house.board(0, release);
             house.die(true);
@@ -400,9 +391,10 @@ public final class ControllerEdgesTest {
         Check.test("16: what comes of a stop is noted with it", () -> {
             ReleaseHouse house = new ReleaseHouse();
             Given.stable(house, 0, Given.program(house, Given.promote(0)));
-            int normal = released(house, 0, Given.share(0, 50), Given.await(99));
+            int normal = Given.released(house, 0, Given.share(0, 50), Given.await(99));
             house.pass(1);
-            int hotfix = house.release(Given.hotfix(house, 0), Given.program(house, Given.share(0, 50), Given.judge(0)));
+            int hotfix = house.release(Given.hotfix(house, 0),
+                    Given.program(house, Given.share(0, 50), Given.judge(0)));
             house.pass(1);
             Given.measures(house, 8, true, true, 1);
             Given.measures(house, 8, false, false, 1);
@@ -471,7 +463,7 @@ public final class ControllerEdgesTest {
     private static void effects() {
         Check.test("19: a change of the stable artefact, of the candidate, or of the share", () -> {
             ReleaseHouse house = new ReleaseHouse();
-            released(house, 0, Given.share(0, 5), Given.share(0, 6), Given.share(1, 6), Given.promote(2),
+            Given.released(house, 0, Given.share(0, 5), Given.share(0, 6), Given.share(1, 6), Given.promote(2),
                     Given.promote(0), Given.await(99));
             Check.same("none at first", house.effects(), 0);
             for (int i = 1; i <= 5; i++) {
@@ -483,17 +475,17 @@ public final class ControllerEdgesTest {
         });
         Check.test("19: what does not change is none", () -> {
             ReleaseHouse house = new ReleaseHouse();
-            released(house, 0, Given.share(0, 5), Given.share(0, 5), Given.promote(0), Given.promote(0),
+            Given.released(house, 0, Given.share(0, 5), Given.share(0, 5), Given.promote(0), Given.promote(0),
                     Given.share(0, 5), Given.await(0));
             house.pass(6);
             Check.same("the same share, and the same stable one", house.effects(), 2);
         });
         Check.test("19: each once for a ring and a step", () -> {
             ReleaseHouse house = new ReleaseHouse();
-            released(house, 0, Given.share(0, 5), Given.promote(0));
+            Given.released(house, 0, Given.share(0, 5), Given.promote(0));
             house.pass(2);
             Check.same("stable and no candidate there, one", house.effects(), 2);
-            released(house, 0, Given.share(0, 5), Given.await(99));
+            Given.released(house, 0, Given.share(0, 5), Given.await(99));
             house.pass(1);
             house.release(Given.hotfix(house, 0), Given.program(house, Given.promote(0)));
             house.pass(1);
@@ -504,7 +496,7 @@ public final class ControllerEdgesTest {
     private static void effectsOfLosing() {
         Check.test("19: also the candidates that are lost: overtaken", () -> {
             ReleaseHouse house = new ReleaseHouse();
-            released(house, 0, Given.share(0, 5), Given.share(1, 5), Given.share(2, 5), Given.await(99));
+            Given.released(house, 0, Given.share(0, 5), Given.share(1, 5), Given.share(2, 5), Given.await(99));
             house.pass(3);
             house.release(Given.hotfix(house, 0), Given.program(house, Given.share(0, 5), Given.await(99)));
             house.pass(1);
@@ -533,7 +525,7 @@ public final class ControllerEdgesTest {
         Check.test("19: going back is one", () -> {
             ReleaseHouse house = new ReleaseHouse();
             Given.stable(house, 0, Given.program(house, Given.promote(0)));
-            int release = released(house, 0, Given.promote(0), Given.share(1, 5), Given.await(99));
+            int release = Given.released(house, 0, Given.promote(0), Given.share(1, 5), Given.await(99));
             house.pass(2);
             house.stop(release);
             Check.same("and the candidate elsewhere another one", house.effects(), 5);

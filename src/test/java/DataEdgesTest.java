@@ -204,6 +204,8 @@ public final class DataEdgesTest {
                 return house;
             }, house -> house.halt(0));
         });
+        Check.test("30: of several exceptions it is the first one",
+                () -> Refusal.badArgument("service and none", ReleaseHouse::new, house -> house.halt(4)));
         Check.test("30: returns how many units it has moved", () -> {
             for (int units : new int[] {0, 1, 5, 6}) {
                 ReleaseHouse house = withUnits(units);

@@ -100,7 +100,8 @@ public final class FlagEdgesTest {
     private static void target() {
         Refusal.World none = ReleaseHouse::new;
         Check.test("48: flag: 0 to 7", () -> Refusal.range(none, 0, 7, (house, n) -> house.target(n, 0, true, 0, 0)));
-        Check.test("48: attribute: 0 to 2", () -> Refusal.range(none, 0, 2, (house, n) -> house.target(0, n, true, 0, 0)));
+        Check.test("48: attribute: 0 to 2",
+                () -> Refusal.range(none, 0, 2, (house, n) -> house.target(0, n, true, 0, 0)));
         Check.test("48: number: 0 to 6", () -> Refusal.range(none, 0, 6, (house, n) -> house.target(0, 0, true, n, 0)));
         Check.test("48: outcome: 0 to 100", () -> Refusal.range(none, 0, 100,
                 (house, n) -> house.target(0, 0, true, 0, n)));
@@ -186,8 +187,9 @@ public final class FlagEdgesTest {
     }
 
     private static void setPlan() {
-        Check.test("50: customer: 0 to 199", () -> Refusal.range(ReleaseHouse::new, 0, 199, (house, n) -> house.setPlan(n, 1)));
-        Check.test("50: plan: 0 to 6", () -> Refusal.range(ReleaseHouse::new, 0, 6, (house, n) -> house.setPlan(0, n)));
+        Refusal.World none = ReleaseHouse::new;
+        Check.test("50: customer: 0 to 199", () -> Refusal.range(none, 0, 199, (house, n) -> house.setPlan(n, 1)));
+        Check.test("50: plan: 0 to 6", () -> Refusal.range(none, 0, 6, (house, n) -> house.setPlan(0, n)));
         Check.test("50: the plan, 0 at first", () -> {
             ReleaseHouse house = new ReleaseHouse();
             house.target(0, 2, false, 0, 1);
@@ -211,7 +213,8 @@ public final class FlagEdgesTest {
 
     private static void isOn() {
         Check.test("51: flag: 0 to 7", () -> Refusal.range(ReleaseHouse::new, 0, 7, (house, n) -> house.isOn(n, 0)));
-        Check.test("51: customer: 0 to 199", () -> Refusal.range(ReleaseHouse::new, 0, 199, (house, n) -> house.isOn(0, n)));
+        Check.test("51: customer: 0 to 199",
+                () -> Refusal.range(ReleaseHouse::new, 0, 199, (house, n) -> house.isOn(0, n)));
         Check.test("51: or needs one that is off", () -> {
             for (int off = 0; off < 8; off++) {
                 ReleaseHouse house = withChain();
@@ -270,35 +273,23 @@ public final class FlagEdgesTest {
         });
     }
 
-    private static ReleaseHouse atMinute(int minute) {
-        ReleaseHouse house = new ReleaseHouse();
-        goOn(house, minute);
-        return house;
-    }
-
-    private static void goOn(ReleaseHouse house, int minutes) {
-        for (int left = minutes; left > 0; left -= Math.min(left, 200)) {
-            house.pass(Math.min(left, 200));
-        }
-    }
-
     private static void stale() {
         Check.test("52: if 500 minutes or more have gone by since the minute 0, if it never was asked for", () -> {
             Check.same("0", new ReleaseHouse().stale(), 0);
-            Check.same("499", atMinute(499).stale(), 0);
-            Check.same("500", atMinute(500).stale(), 255);
-            Check.same("501", atMinute(501).stale(), 255);
-            Check.same("20000", atMinute(20000).stale(), 255);
+            Check.same("499", Given.atMinute(499).stale(), 0);
+            Check.same("500", Given.atMinute(500).stale(), 255);
+            Check.same("501", Given.atMinute(501).stale(), 255);
+            Check.same("20000", Given.atMinute(20000).stale(), 255);
         });
         Check.test("52: since it was last asked for by isOn()", () -> {
             for (int flag = 0; flag < 8; flag++) {
-                ReleaseHouse house = atMinute(3);
+                ReleaseHouse house = Given.atMinute(3);
                 house.isOn(flag, 0);
-                goOn(house, 4);
+                Given.goOn(house, 4);
                 house.isOn(flag, 0);
-                goOn(house, 499);
+                Given.goOn(house, 499);
                 Check.same("499 of the flag " + flag, house.stale(), 255 - (1 << flag));
-                goOn(house, 1);
+                Given.goOn(house, 1);
                 Check.same("500 of the flag " + flag, house.stale(), 255);
                 house.isOn(flag, 199);
                 Check.same("asked for again", house.stale(), 255 - (1 << flag));
@@ -306,19 +297,19 @@ public final class FlagEdgesTest {
         });
         Check.test("51: asks for it, but not for those that it needs", () -> {
             ReleaseHouse house = withChain();
-            goOn(house, 500);
+            Given.goOn(house, 500);
             Check.yes("on", house.isOn(7, 0));
             Check.same("all others are stale", house.stale(), 127);
         });
         Check.test("51: asks for one that is killed, too", () -> {
             ReleaseHouse house = withChain();
             house.kill(0);
-            goOn(house, 500);
+            Given.goOn(house, 500);
             Check.no("off", house.isOn(0, 0));
             Check.same("all others are stale", house.stale(), 254);
         });
         Check.test("52: what is refused, and other calls, do not ask for it", () -> {
-            ReleaseHouse house = atMinute(500);
+            ReleaseHouse house = Given.atMinute(500);
             Check.badArgument("customer", () -> house.isOn(0, 200));
             Check.badArgument("flag", () -> house.isOn(8, 0));
             house.flag(1, 100, NONE);
@@ -340,7 +331,8 @@ public final class FlagEdgesTest {
 
     private static void experiment() {
         Refusal.World none = ReleaseHouse::new;
-        Check.test("53: layer: 0 to 2", () -> Refusal.range(none, 0, 2, (house, n) -> house.experiment(n, 0, 0, 99, 2)));
+        Check.test("53: layer: 0 to 2",
+                () -> Refusal.range(none, 0, 2, (house, n) -> house.experiment(n, 0, 0, 99, 2)));
         Check.test("53: flag: 0 to 7", () -> Refusal.range(none, 0, 7, (house, n) -> house.experiment(0, n, 0, 99, 2)));
         Check.test("53: from: the first seat, 0 to 99", () -> Refusal.range(none, 0, 99,
                 (house, n) -> house.experiment(0, 0, n, 99, 2)));
@@ -462,7 +454,9 @@ public final class FlagEdgesTest {
 
     private static void arms() {
         Check.test("55: the seat is the remainder by 100 of 61 times the customer, plus 17 times the layer", () -> {
-            int[][] rows = {{0, 0, 0}, {0, 1, 61}, {0, 2, 22}, {2, 0, 34}, {1, 83, 80}, {2, 199, 73}, {0, 59, 99}, {1, 103, 0}};
+            int[][] rows = {
+                {0, 0, 0}, {0, 1, 61}, {0, 2, 22}, {2, 0, 34}, {1, 83, 80}, {2, 199, 73}, {0, 59, 99}, {1, 103, 0},
+            };
             for (int[] row : rows) {
                 String what = "layer " + row[0] + ", customer " + row[1];
                 Check.same(what, withExperiment(row[0], row[2], row[2], 2).arm(0, row[1]), 0);

@@ -62,6 +62,24 @@ final class Given {
         return artefact;
     }
 
+    /** An easy artefact of a service and its release by the steps given, at the first of them. */
+    static int released(ReleaseHouse house, int service, int[]... steps) {
+        return house.release(easy(house, service), program(house, steps));
+    }
+
+    static ReleaseHouse atMinute(int minute) {
+        ReleaseHouse house = new ReleaseHouse();
+        goOn(house, minute);
+        return house;
+    }
+
+    /** More minutes may go by so than by one call. */
+    static void goOn(ReleaseHouse house, int minutes) {
+        for (int left = minutes; left > 0; left -= Math.min(left, 200)) {
+            house.pass(Math.min(left, 200));
+        }
+    }
+
     static void measures(ReleaseHouse house, int count, boolean isCandidate, boolean isBad, int millis) {
         for (int i = 0; i < count; i++) {
             house.measure(0, 0, isCandidate, isBad, millis);

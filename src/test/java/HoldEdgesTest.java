@@ -17,18 +17,6 @@ public final class HoldEdgesTest {
         Check.finish();
     }
 
-    private static int released(ReleaseHouse house, int service, int[]... steps) {
-        return house.release(Given.easy(house, service), Given.program(house, steps));
-    }
-
-    private static ReleaseHouse atMinute(int minute) {
-        ReleaseHouse house = new ReleaseHouse();
-        for (int left = minute; left > 0; left -= Math.min(left, 200)) {
-            house.pass(Math.min(left, 200));
-        }
-        return house;
-    }
-
     private static void hold() {
         Check.test("38: service: 0 to 3", () -> Refusal.range(ReleaseHouse::new, 0, 3, ReleaseHouse::hold));
         Check.test("38: returns whether it is held then", () -> {
@@ -43,7 +31,7 @@ public final class HoldEdgesTest {
         });
         Check.test("38: what is there stays while it is held", () -> {
             ReleaseHouse house = new ReleaseHouse();
-            int release = released(house, 0, Given.share(0, 5), Given.await(9));
+            int release = Given.released(house, 0, Given.share(0, 5), Given.await(9));
             house.pass(1);
             house.hold(0);
             house.pass(1);
@@ -84,9 +72,9 @@ public final class HoldEdgesTest {
         Check.test("39: of several exceptions it is the first one",
                 () -> Refusal.badArgument("level and 8", () -> withFreezes(8), house -> house.freeze(0, 0, 0, 4)));
         Check.test("39: one that has gone by may be made", () -> {
-            ReleaseHouse house = atMinute(50);
+            ReleaseHouse house = Given.atMinute(50);
             Check.same("its number", house.freeze(0, 0, 49, 3), 0);
-            Check.same("it holds for none", house.why(released(house, 0, Given.promote(0))), 0);
+            Check.same("it holds for none", house.why(Given.released(house, 0, Given.promote(0))), 0);
         });
     }
 
@@ -94,23 +82,24 @@ public final class HoldEdgesTest {
         Check.test("39: from a minute to another one, both included", () -> {
             int[][] rows = {{9, 0}, {10, 3}, {11, 3}, {12, 3}, {13, 0}};
             for (int[] row : rows) {
-                ReleaseHouse house = atMinute(row[0]);
+                ReleaseHouse house = Given.atMinute(row[0]);
                 house.freeze(1, 10, 12, 2);
-                Check.same("in the minute " + row[0], house.why(released(house, 0, Given.promote(1))), row[1]);
+                Check.same("in the minute " + row[0], house.why(Given.released(house, 0, Given.promote(1))), row[1]);
             }
         });
         Check.test("39: of one minute", () -> {
             for (int minute = 4; minute <= 6; minute++) {
-                ReleaseHouse house = atMinute(minute);
+                ReleaseHouse house = Given.atMinute(minute);
                 house.freeze(2, 5, 5, 3);
-                Check.same("in the minute " + minute, house.why(released(house, 0, Given.promote(2))), minute == 5 ? 3 : 0);
+                Check.same("in the minute " + minute, house.why(Given.released(house, 0, Given.promote(2))),
+                        minute == 5 ? 3 : 0);
             }
         });
         Check.test("39: of the minute 0, and of the last one", () -> {
             for (int minute = 0; minute <= 20000; minute += 20000) {
-                ReleaseHouse house = atMinute(minute);
+                ReleaseHouse house = Given.atMinute(minute);
                 house.freeze(0, minute, minute, 3);
-                Check.same("in the minute " + minute, house.why(released(house, 0, Given.promote(0))), 3);
+                Check.same("in the minute " + minute, house.why(Given.released(house, 0, Given.promote(0))), 3);
             }
         });
         Check.test("39: by any of those of the ring", () -> {
@@ -118,7 +107,7 @@ public final class HoldEdgesTest {
             house.freeze(0, 0, 0, 3);
             house.freeze(1, 0, 0, 3);
             house.freeze(2, 1, 9, 3);
-            Check.same("none of them", house.why(released(house, 0, Given.promote(2))), 0);
+            Check.same("none of them", house.why(Given.released(house, 0, Given.promote(2))), 0);
             for (int i = 3; i < 7; i++) {
                 house.freeze(0, 5, 5, 3);
             }
@@ -279,7 +268,7 @@ public final class HoldEdgesTest {
             int[][] rows = {{1, 11}, {50, 11}, {51, 10}, {100, 10}, {0, 10}};
             for (int[] row : rows) {
                 ReleaseHouse house = new ReleaseHouse();
-                released(house, 3, row[0] == 0 ? Given.promote(1) : Given.share(1, row[0]));
+                Given.released(house, 3, row[0] == 0 ? Given.promote(1) : Given.share(1, row[0]));
                 house.pass(1);
                 Check.same("share " + row[0] + " (0 is PROMOTE)", house.left(1), row[1]);
                 Check.same("in another ring", house.left(0) + house.left(2), 24);
@@ -302,7 +291,7 @@ public final class HoldEdgesTest {
         });
         Check.test("43: below 0 if more are taken than there are", () -> {
             ReleaseHouse house = new ReleaseHouse();
-            released(house, 0, Given.promote(0));
+            Given.released(house, 0, Given.promote(0));
             house.pass(1);
             for (int zone = 0; zone < 3; zone++) {
                 house.zone(0, zone);
@@ -315,7 +304,7 @@ public final class HoldEdgesTest {
         });
         Check.test("43: a session takes no place", () -> {
             ReleaseHouse house = new ReleaseHouse();
-            int release = released(house, 0, Given.share(0, 100), Given.await(9));
+            int release = Given.released(house, 0, Given.share(0, 100), Given.await(9));
             house.pass(1);
             house.begin(0, 0);
             house.stop(release);
@@ -334,9 +323,10 @@ public final class HoldEdgesTest {
     private static void train() {
         Check.test("44: a minute behind now, at most 20000", () -> {
             Refusal.range(ReleaseHouse::new, 1, 20000, ReleaseHouse::train);
-            Refusal.range(() -> atMinute(7), 8, 20000, ReleaseHouse::train);
-            Refusal.range(() -> atMinute(19999), 20000, 20000, ReleaseHouse::train);
-            Refusal.badArgument("there is none behind the last one", () -> atMinute(20000), house -> house.train(20000));
+            Refusal.range(() -> Given.atMinute(7), 8, 20000, ReleaseHouse::train);
+            Refusal.range(() -> Given.atMinute(19999), 20000, 20000, ReleaseHouse::train);
+            Refusal.badArgument("there is none behind the last one", () -> Given.atMinute(20000),
+                    house -> house.train(20000));
         });
         Check.test("44: trains are numbered from 0, at most 6", () -> {
             Check.same("the last one", withTrains(5).train(20000), 5);
@@ -386,14 +376,14 @@ public final class HoldEdgesTest {
         });
         Check.test("45: one that is not at a TRAIN step may be on board", () -> {
             ReleaseHouse house = withBoarding();
-            int waiting = released(house, 2, Given.await(1), Given.byTrain(), Given.await(99));
+            int waiting = Given.released(house, 2, Given.await(1), Given.byTrain(), Given.await(99));
             Check.same("on board", house.board(0, waiting), 1);
             house.pass(3);
             Check.same("it has come to it", house.taken(0), 1);
         });
         Check.test("45: one that is overtaken may be on board", () -> {
             ReleaseHouse house = withBoarding();
-            int normal = released(house, 2, Given.share(0, 5), Given.byTrain());
+            int normal = Given.released(house, 2, Given.share(0, 5), Given.byTrain());
             house.pass(1);
             house.release(Given.hotfix(house, 2), Given.program(house, Given.share(0, 5), Given.await(99)));
             house.pass(1);
@@ -434,7 +424,8 @@ public final class HoldEdgesTest {
             house.board(0, 0);
             Check.same("not any more", house.board(1, 0), 1);
         });
-        Check.test("45: of several exceptions it is the first one", () -> Refusal.noSuch("release and train that has left",
+        Check.test("45: of several exceptions it is the first one",
+                () -> Refusal.noSuch("release and train that has left",
                 () -> {
                     ReleaseHouse house = withBoarding();
                     house.pass(3);
@@ -461,8 +452,8 @@ public final class HoldEdgesTest {
         });
         Check.test("46: it takes all releases on board that are running and at a TRAIN step", () -> {
             ReleaseHouse house = withBoarding();
-            int late = released(house, 2, Given.await(2), Given.await(1), Given.byTrain());
-            int stopped = released(house, 3, Given.byTrain());
+            int late = Given.released(house, 2, Given.await(2), Given.await(1), Given.byTrain());
+            int stopped = Given.released(house, 3, Given.byTrain());
             for (int release : new int[] {0, 1, late, stopped}) {
                 house.board(1, release);
             }
@@ -473,9 +464,37 @@ public final class HoldEdgesTest {
             house.pass(50);
             Check.same("and stays", house.at(late), 2);
         });
+        Check.test("46: one that was overtaken on board, and runs again", () -> {
+            ReleaseHouse house = new ReleaseHouse();
+            int normal = Given.released(house, 0, Given.byTrain(), Given.share(0, 5), Given.await(99));
+            house.train(1);
+            house.board(0, normal);
+            house.pass(2);
+            house.train(5);
+            house.board(1, normal);
+            int hotfix = house.release(Given.hotfix(house, 0),
+                    Given.program(house, Given.share(0, 5), Given.await(99)));
+            house.pass(1);
+            Check.same("overtaken", house.state(normal), 1);
+            Check.badState("on board still", () -> house.board(1, normal));
+            house.stop(hotfix);
+            house.pass(2);
+            Check.same("taken again", house.taken(1), 1);
+        });
+        Check.test("46: one that another train has taken, and that is at that step still", () -> {
+            ReleaseHouse house = withBoarding();
+            house.board(0, 0);
+            house.die(false);
+            house.pass(3);
+            house.train(4);
+            house.board(2, 0);
+            house.pass(1);
+            Check.same("by the first one", house.taken(0), 1);
+            Check.same("by the next one", house.taken(2), 1);
+        });
         Check.test("46: the others are not on board any more", () -> {
             ReleaseHouse house = withBoarding();
-            int late = released(house, 2, Given.await(5), Given.byTrain());
+            int late = Given.released(house, 2, Given.await(5), Given.byTrain());
             house.board(0, late);
             house.pass(3);
             house.train(9);
@@ -491,7 +510,7 @@ public final class HoldEdgesTest {
             Check.same("each took one", house.taken(0) * 10 + house.taken(1), 11);
         });
         Check.test("46: one that leaves in the last minute", () -> {
-            ReleaseHouse house = atMinute(19999);
+            ReleaseHouse house = Given.atMinute(19999);
             house.train(20000);
             Check.same("not yet", house.taken(0), NONE);
             house.pass(1);

@@ -386,6 +386,18 @@ public final class ReleaseEdgesTest {
             Check.same("goes back", house.stop(1), 0);
             Check.same("stable again", house.stable(0, 1), 0);
         });
+        Check.test("11: an effect that was not noted is one, too", () -> {
+            ReleaseHouse house = new ReleaseHouse();
+            Given.stable(house, 0, Given.program(house, Given.promote(0)));
+            int release = Given.released(house, 0, Given.promote(0), Given.await(99));
+            house.die(true);
+            house.pass(1);
+            house.rise();
+            house.pass(1);
+            Check.same("noted by the next one, without an effect", house.at(release), 1);
+            Check.same("goes back", house.stop(release), 0);
+            Check.same("stable again", house.stable(0, 0), 0);
+        });
         Check.test("11: also those of a release that runs again count", () -> {
             ReleaseHouse house = new ReleaseHouse();
             Given.stable(house, 0, Given.program(house, Given.promote(0)));
@@ -536,6 +548,31 @@ public final class ReleaseEdgesTest {
             house.release(Given.easy(house, 0), Given.program(house, Given.await(0)));
             house.pass(1);
             Check.same("one that is no hotfix has ended", house.state(0), 1);
+        });
+        Check.test("12: ended by a stop, or skipped", () -> {
+            ReleaseHouse house = withOvertaken();
+            house.stop(1);
+            Check.same("by a stop", house.state(0), 0);
+            ReleaseHouse other = new ReleaseHouse();
+            other.release(Given.easy(other, 0), Given.program(other, Given.share(0, 10), Given.await(99)));
+            other.pass(1);
+            int hotfix = other.release(Given.hotfix(other, 0),
+                    Given.program(other, Given.share(0, 10), Given.share(1, 10), Given.await(99)));
+            Given.stable(other, 0, Given.program(other, Given.promote(1)));
+            Check.same("overtaken", other.state(0), 1);
+            other.pass(1);
+            Check.same("skipped", other.state(hotfix), 4);
+            Check.same("runs again", other.state(0), 0);
+        });
+        Check.test("12: skipped, it loses its candidates, in all rings, and nothing else", () -> {
+            ReleaseHouse house = new ReleaseHouse();
+            int older = Given.easy(house, 0);
+            Given.stable(house, 0, Given.program(house, Given.promote(2)));
+            house.release(older, Given.program(house, Given.promote(1), Given.share(0, 10), Given.share(2, 10)));
+            house.pass(3);
+            Check.same("skipped", house.state(1), 4);
+            Check.same("its candidate", house.candidate(0, 0), NONE);
+            Check.same("what it has made stable stays", house.stable(0, 1), older);
         });
     }
 

@@ -15,14 +15,10 @@ public final class RingEdgesTest {
         Check.finish();
     }
 
-    private static int released(ReleaseHouse house, int service, int[]... steps) {
-        return house.release(Given.easy(house, service), Given.program(house, steps));
-    }
-
     /** An easy artefact of the service is the stable one in all rings. */
     private static ReleaseHouse withStable(int service) {
         ReleaseHouse house = new ReleaseHouse();
-        released(house, service, Given.promote(0), Given.promote(1), Given.promote(2));
+        Given.released(house, service, Given.promote(0), Given.promote(1), Given.promote(2));
         house.pass(3);
         return house;
     }
@@ -78,7 +74,7 @@ public final class RingEdgesTest {
     private static void stableAndCandidate() {
         Check.test("20: NONE if there is none", () -> {
             ReleaseHouse house = new ReleaseHouse();
-            int release = released(house, 3, Given.share(2, 100), Given.promote(2));
+            int release = Given.released(house, 3, Given.share(2, 100), Given.promote(2));
             Check.same("at first", house.stable(3, 2), NONE);
             house.pass(1);
             Check.same("a candidate alone", house.stable(3, 2), NONE);
@@ -90,7 +86,7 @@ public final class RingEdgesTest {
         });
         Check.test("21: NONE if there is none", () -> {
             ReleaseHouse house = new ReleaseHouse();
-            released(house, 3, Given.share(2, 1), Given.promote(2));
+            Given.released(house, 3, Given.share(2, 1), Given.promote(2));
             Check.same("at first", house.candidate(3, 2), NONE);
             house.pass(1);
             Check.same("a candidate", house.candidate(3, 2), 0);
@@ -101,7 +97,7 @@ public final class RingEdgesTest {
         });
         Check.test("22: 0 if there is none", () -> {
             ReleaseHouse house = new ReleaseHouse();
-            released(house, 3, Given.share(2, 1), Given.share(2, 100), Given.promote(2));
+            Given.released(house, 3, Given.share(2, 1), Given.share(2, 100), Given.promote(2));
             Check.same("at first", house.share(3, 2), 0);
             house.pass(1);
             Check.same("the least", house.share(3, 2), 1);
@@ -112,7 +108,7 @@ public final class RingEdgesTest {
         });
         Check.test("21: a release that is done leaves its candidate", () -> {
             ReleaseHouse house = new ReleaseHouse();
-            released(house, 0, Given.share(0, 7));
+            Given.released(house, 0, Given.share(0, 7));
             house.pass(5);
             Check.same("candidate", house.candidate(0, 0), 0);
             Check.same("share", house.share(0, 0), 7);
@@ -127,14 +123,14 @@ public final class RingEdgesTest {
         Check.test("23: NONE if nothing", () -> {
             ReleaseHouse house = new ReleaseHouse();
             Check.same("nothing is there", house.sees(0, 0), NONE);
-            released(house, 0, Given.share(0, 37));
+            Given.released(house, 0, Given.share(0, 37));
             house.pass(1);
             Check.same("not below the share, and none is stable", house.sees(0, 110), NONE);
         });
-        Check.test("23: a customer is in the ring 0, if the number divided by 10 leaves 0, 1 if 1 to 3, otherwise 2", () -> {
+        Check.test("23: in the ring 0, if the number divided by 10 leaves 0, in 1, if 1 to 3, otherwise in 2", () -> {
             for (int ring = 0; ring < 3; ring++) {
                 ReleaseHouse house = new ReleaseHouse();
-                released(house, 0, Given.promote(ring));
+                Given.released(house, 0, Given.promote(ring));
                 house.pass(1);
                 for (int customer : new int[] {0, 1, 2, 3, 4, 5, 9, 10, 11, 13, 14, 99, 100, 101, 190, 193, 194, 199}) {
                     int due = ringOf(customer) == ring ? 0 : NONE;
@@ -150,13 +146,14 @@ public final class RingEdgesTest {
                 house.pass(1);
                 for (int customer = 0; customer < 200; customer += 10) {
                     int place = 37 * customer % 100;
-                    Check.same("place " + place + ", share " + share, house.sees(0, customer), place < share ? next : 0);
+                    Check.same("place " + place + ", share " + share,
+                            house.sees(0, customer), place < share ? next : 0);
                 }
             }
         });
         Check.test("23: in the customer's ring", () -> {
             ReleaseHouse house = withStable(0);
-            released(house, 0, Given.share(1, 100), Given.await(9));
+            Given.released(house, 0, Given.share(1, 100), Given.await(9));
             house.pass(1);
             Check.same("ring 0", house.sees(0, 0), 0);
             Check.same("ring 1", house.sees(0, 3), 1);
@@ -165,7 +162,7 @@ public final class RingEdgesTest {
         Check.test("23: the artefact of a session, if there is one", () -> {
             ReleaseHouse house = withStable(0);
             house.begin(0, 0);
-            released(house, 0, Given.share(0, 100), Given.promote(0));
+            Given.released(house, 0, Given.share(0, 100), Given.promote(0));
             house.pass(1);
             Check.same("ahead of the candidate", house.sees(0, 0), 0);
             house.pass(1);
@@ -179,7 +176,7 @@ public final class RingEdgesTest {
         for (int more = 0; more < 2; more++) {
             if (place + more > 0) {
                 ReleaseHouse house = new ReleaseHouse();
-                released(house, service, Given.share(ringOf(customer), place + more));
+                Given.released(house, service, Given.share(ringOf(customer), place + more));
                 house.pass(1);
                 Check.same("customer " + customer + " of service " + service + ", share " + (place + more),
                         house.sees(service, customer), more == 1 ? 0 : NONE);
@@ -232,7 +229,7 @@ public final class RingEdgesTest {
             ReleaseHouse house = new ReleaseHouse();
             Given.easy(house, 0);
             Check.same("nothing is there", house.seers(0, 0), 0);
-            released(house, 0, Given.promote(0));
+            Given.released(house, 0, Given.promote(0));
             house.pass(1);
             Check.same("another one is", house.seers(0, 0), 0);
             Check.same("that one", house.seers(1, 0), 20);
@@ -242,7 +239,7 @@ public final class RingEdgesTest {
             int[][] rows = {{0, 1, 2}, {0, 100, 20}, {1, 1, 1}, {2, 1, 0}, {2, 100, 120}};
             for (int[] row : rows) {
                 ReleaseHouse house = new ReleaseHouse();
-                released(house, 0, Given.share(row[0], row[1]));
+                Given.released(house, 0, Given.share(row[0], row[1]));
                 house.pass(1);
                 int due = 0;
                 for (int customer = 0; customer < 200; customer++) {
@@ -255,7 +252,7 @@ public final class RingEdgesTest {
             ReleaseHouse house = withStable(0);
             house.begin(0, 0);
             house.begin(0, 1);
-            released(house, 0, Given.promote(0));
+            Given.released(house, 0, Given.promote(0));
             house.pass(1);
             Check.same("one of the ring 0", house.seers(0, 0), 1);
             Check.same("all others", house.seers(1, 0), 19);
@@ -279,7 +276,7 @@ public final class RingEdgesTest {
             Refusal.badState("the same", () -> withSessions(1), house -> house.begin(0, 100));
             Refusal.badState("though another one is seen by others", () -> {
                 ReleaseHouse house = withSessions(1);
-                released(house, 0, Given.promote(0));
+                Given.released(house, 0, Given.promote(0));
                 house.pass(1);
                 return house;
             }, house -> house.begin(0, 100));
@@ -290,7 +287,7 @@ public final class RingEdgesTest {
             Refusal.badState("nothing is there", ReleaseHouse::new, house -> house.begin(0, 0));
             Refusal.badState("not below the share", () -> {
                 ReleaseHouse house = new ReleaseHouse();
-                released(house, 0, Given.share(0, 70));
+                Given.released(house, 0, Given.share(0, 70));
                 house.pass(1);
                 return house;
             }, house -> house.begin(0, 10));
@@ -309,7 +306,7 @@ public final class RingEdgesTest {
         });
         Check.test("25: a session begins with what the customer sees", () -> {
             ReleaseHouse house = withStable(0);
-            released(house, 0, Given.share(0, 50), Given.await(9));
+            Given.released(house, 0, Given.share(0, 50), Given.await(9));
             house.pass(1);
             Check.same("the candidate", house.begin(0, 0), 1);
             Check.same("the stable one", house.begin(0, 10), 0);
@@ -319,13 +316,13 @@ public final class RingEdgesTest {
     private static void sessionsGoOn() {
         Check.test("25: and goes on with it until it ends", () -> {
             ReleaseHouse house = withStable(0);
-            int release = released(house, 0, Given.share(0, 50), Given.await(9));
+            int release = Given.released(house, 0, Given.share(0, 50), Given.await(9));
             house.pass(1);
             house.begin(0, 0);
             house.begin(0, 10);
             house.stop(release);
             Check.same("the candidate is lost", house.sees(0, 0), 1);
-            released(house, 0, Given.promote(0));
+            Given.released(house, 0, Given.promote(0));
             house.pass(1);
             Check.same("another one is stable", house.sees(0, 10), 0);
             Check.same("what the first one began with", house.end(0, 0), 1);
@@ -344,9 +341,11 @@ public final class RingEdgesTest {
                 return house;
             }, house -> house.end(0, 100));
         });
+        Check.test("26: of several exceptions it is the first one",
+                () -> Refusal.badArgument("customer and no session", ReleaseHouse::new, house -> house.end(0, 200)));
         Check.test("26: sees then what others see", () -> {
             ReleaseHouse house = withSessions(1);
-            released(house, 0, Given.promote(0));
+            Given.released(house, 0, Given.promote(0));
             house.pass(1);
             Check.same("what it began with", house.end(0, 100), 0);
             Check.same("the stable one", house.sees(0, 100), 2);
@@ -359,7 +358,7 @@ public final class RingEdgesTest {
             ReleaseHouse house = new ReleaseHouse();
             Given.easy(house, 0);
             Check.same("nothing is there", house.wayOut(0, 0), NONE);
-            released(house, 0, Given.share(0, 5));
+            Given.released(house, 0, Given.share(0, 5));
             Given.easy(house, 0);
             house.pass(1);
             Check.same("a candidate alone", house.wayOut(0, 0), NONE);
@@ -390,7 +389,7 @@ public final class RingEdgesTest {
         });
         Check.test("27: and may go live or are live", () -> {
             ReleaseHouse house = withStable(0);
-            int kept = released(house, 1, Given.share(0, 5), Given.await(99));
+            int kept = Given.released(house, 1, Given.share(0, 5), Given.await(99));
             house.pass(1);
             int needy = house.artefact(0, 0, 255, 1, 1, 255, 0, false, true);
             house.release(needy, Given.program(house, Given.share(0, 5), Given.await(99)));

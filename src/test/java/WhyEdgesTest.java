@@ -18,11 +18,6 @@ public final class WhyEdgesTest {
         Check.finish();
     }
 
-    /** An easy artefact and its release by the steps given, at the first of them. */
-    private static int released(ReleaseHouse house, int service, int[]... steps) {
-        return house.release(Given.easy(house, service), Given.program(house, steps));
-    }
-
     /** The artefact 0 of the service 0 is the stable one in the ring 0. */
     private static ReleaseHouse withStable() {
         ReleaseHouse house = new ReleaseHouse();
@@ -34,7 +29,7 @@ public final class WhyEdgesTest {
         Check.test("14: throws if there is no such release", () -> {
             Refusal.numbers(() -> {
                 ReleaseHouse house = withStable();
-                released(house, 0, Given.await(1));
+                Given.released(house, 0, Given.await(1));
                 return house;
             }, 2, ReleaseHouse::why);
             Refusal.noSuch("none at all", ReleaseHouse::new, house -> house.why(0));
@@ -94,7 +89,7 @@ public final class WhyEdgesTest {
         Check.test("14: 2, if the service is held", () -> {
             for (int way = 0; way < 2; way++) {
                 ReleaseHouse house = new ReleaseHouse();
-                int release = released(house, 3, way == 0 ? Given.share(0, 5) : Given.promote(2));
+                int release = Given.released(house, 3, way == 0 ? Given.share(0, 5) : Given.promote(2));
                 house.hold(2);
                 Check.same("another one", house.why(release), 0);
                 house.hold(3);
@@ -106,7 +101,8 @@ public final class WhyEdgesTest {
         });
         Check.test("14: other steps go on in a service that is held", () -> {
             ReleaseHouse house = new ReleaseHouse();
-            int release = released(house, 0, Given.await(0), Given.approvals(0), Given.drain(0), Given.promote(0));
+            int release = Given.released(house, 0, Given.await(0),
+                    Given.approvals(0), Given.drain(0), Given.promote(0));
             hinder(house, 0, 0);
             Check.same("three of four", house.pass(9), 3);
             Check.same("the last one does not", house.why(release), 2);
@@ -114,7 +110,7 @@ public final class WhyEdgesTest {
         Check.test("14: 3, if the ring is frozen for it", () -> {
             for (int way = 0; way < 2; way++) {
                 ReleaseHouse house = new ReleaseHouse();
-                int release = released(house, 0, way == 0 ? Given.share(1, 5) : Given.promote(1));
+                int release = Given.released(house, 0, way == 0 ? Given.share(1, 5) : Given.promote(1));
                 house.freeze(0, 0, 20000, 3);
                 Check.same("another ring", house.why(release), 0);
                 house.freeze(1, 0, 0, 1);
@@ -141,9 +137,9 @@ public final class WhyEdgesTest {
         });
         Check.test("14: 4, as long as that release has not ended", () -> {
             ReleaseHouse house = new ReleaseHouse();
-            int rival = released(house, 0, Given.share(0, 5), Given.await(1));
+            int rival = Given.released(house, 0, Given.share(0, 5), Given.await(1));
             house.pass(1);
-            int release = released(house, 0, Given.share(0, 6));
+            int release = Given.released(house, 0, Given.share(0, 6));
             Check.same("it runs", house.why(release), 4);
             house.hold(0);
             house.pass(1);
@@ -157,7 +153,7 @@ public final class WhyEdgesTest {
         });
         Check.test("14: the artefact's own candidate is no other one", () -> {
             ReleaseHouse house = new ReleaseHouse();
-            int release = released(house, 0, Given.share(0, 5), Given.share(0, 6), Given.promote(0));
+            int release = Given.released(house, 0, Given.share(0, 5), Given.share(0, 6), Given.promote(0));
             for (int i = 0; i < 3; i++) {
                 Check.same("step " + i, house.why(release), 0);
                 house.pass(1);
@@ -165,10 +161,10 @@ public final class WhyEdgesTest {
         });
         Check.test("14: a candidate in another ring, or of another service, is no matter", () -> {
             ReleaseHouse house = new ReleaseHouse();
-            released(house, 0, Given.share(0, 5), Given.await(99));
-            released(house, 1, Given.share(1, 5), Given.await(99));
+            Given.released(house, 0, Given.share(0, 5), Given.await(99));
+            Given.released(house, 1, Given.share(1, 5), Given.await(99));
             house.pass(1);
-            Check.same("of this service in another ring", house.why(released(house, 0, Given.share(1, 5))), 0);
+            Check.same("of this service in another ring", house.why(Given.released(house, 0, Given.share(1, 5))), 0);
         });
     }
 
@@ -186,10 +182,12 @@ public final class WhyEdgesTest {
 
     private static void capacity() {
         Check.test("14: 5, if all that take places take more than there are", () -> {
-            int[][] rows = {{50, 0, 5}, {50, 1, 0}, {51, 1, 5}, {51, 2, 0}, {100, 1, 5}, {1, 1, 0}, {0, 1, 5}, {0, 2, 0}};
+            int[][] rows = {
+                {50, 0, 5}, {50, 1, 0}, {51, 1, 5}, {51, 2, 0}, {100, 1, 5}, {1, 1, 0}, {0, 1, 5}, {0, 2, 0},
+            };
             for (int[] row : rows) {
                 ReleaseHouse house = withFullRing();
-                int release = released(house, 0, row[0] == 0 ? Given.promote(0) : Given.share(0, row[0]));
+                int release = Given.released(house, 0, row[0] == 0 ? Given.promote(0) : Given.share(0, row[0]));
                 house.surge(0, row[1]);
                 Check.same("share " + row[0] + " (0 is PROMOTE), left " + row[1], house.why(release), row[2]);
             }
@@ -197,7 +195,7 @@ public final class WhyEdgesTest {
         Check.test("14: no more than ahead of it is enough", () -> {
             ReleaseHouse house = withFullRing();
             house.surge(0, 2);
-            int release = released(house, 0, Given.share(0, 51), Given.share(0, 100), Given.share(0, 50),
+            int release = Given.released(house, 0, Given.share(0, 51), Given.share(0, 100), Given.share(0, 50),
                     Given.share(0, 51), Given.await(99));
             house.pass(1);
             house.zone(0, 2);
@@ -210,16 +208,16 @@ public final class WhyEdgesTest {
         });
         Check.test("14: PROMOTE takes the place of its own candidate, and of the stable one", () -> {
             ReleaseHouse house = withFullRing();
-            int release = released(house, 1, Given.promote(0));
+            int release = Given.released(house, 1, Given.promote(0));
             Check.same("two for two", house.why(release), 0);
             ReleaseHouse other = withFullRing();
             other.surge(0, 2);
-            int large = released(other, 0, Given.share(0, 51), Given.promote(0));
+            int large = Given.released(other, 0, Given.share(0, 51), Given.promote(0));
             other.pass(1);
             Check.same("two for two of its own", other.why(large), 0);
             ReleaseHouse third = withFullRing();
             third.surge(0, 1);
-            int small = released(third, 0, Given.share(0, 50), Given.promote(0));
+            int small = Given.released(third, 0, Given.share(0, 50), Given.promote(0));
             third.pass(1);
             Check.same("two for one of its own", third.why(small), 5);
             third.surge(0, 2);
@@ -229,8 +227,8 @@ public final class WhyEdgesTest {
             int[][] rows = {{50, 50, 100, 0}, {50, 51, 1, 0}, {100, 51, 1, 5}, {50, 51, 51, 5}, {1, 1, 1, 0}};
             for (int[] row : rows) {
                 ReleaseHouse house = new ReleaseHouse();
-                released(house, 1, Given.share(0, 100), Given.share(1, 100), Given.await(99));
-                int release = released(house, 0, Given.share(0, row[0]), Given.share(1, row[1]),
+                Given.released(house, 1, Given.share(0, 100), Given.share(1, 100), Given.await(99));
+                int release = Given.released(house, 0, Given.share(0, row[0]), Given.share(1, row[1]),
                         Given.share(2, row[2]), Given.await(99));
                 house.pass(2);
                 Check.same(row[0] + ", " + row[1] + ", " + row[2], house.why(release), row[3]);
@@ -239,18 +237,33 @@ public final class WhyEdgesTest {
         Check.test("14: what is overtaken is gone, in all rings", () -> {
             ReleaseHouse house = withFullRing();
             house.surge(0, 1);
-            released(house, 0, Given.share(0, 50), Given.share(1, 100), Given.share(2, 50), Given.await(99));
+            Given.released(house, 0, Given.share(0, 50), Given.share(1, 100), Given.share(2, 50), Given.await(99));
             house.pass(3);
             int hotfix = house.release(Given.hotfix(house, 0),
                     Given.program(house, Given.share(0, 50), Given.share(1, 100), Given.await(99)));
             Check.same("one place for one", house.why(hotfix), 0);
             house.pass(2);
             Check.same("both go on", house.at(hotfix), 2);
+            ReleaseHouse other = new ReleaseHouse();
+            Given.released(other, 0, Given.share(0, 50), Given.share(1, 100), Given.share(2, 50), Given.await(99));
+            other.pass(3);
+            int large = other.release(Given.hotfix(other, 0), Given.program(other, Given.share(0, 100)));
+            Check.same("its two places, and none of the other rings", other.why(large), 0);
+        });
+        Check.test("14: what is not overtaken counts, in all rings", () -> {
+            for (int share = 50; share <= 51; share++) {
+                ReleaseHouse house = new ReleaseHouse();
+                Given.released(house, 0, Given.share(0, 50), Given.await(99));
+                Given.released(house, 0, Given.share(1, 100), Given.share(2, 50), Given.await(99));
+                house.pass(2);
+                int hotfix = house.release(Given.hotfix(house, 0), Given.program(house, Given.share(0, share)));
+                Check.same("2 and 1 of another release, share " + share, house.why(hotfix), share == 50 ? 0 : 5);
+            }
         });
         Check.test("14: what is overtaken leaves no more places than it took", () -> {
             ReleaseHouse house = withFullRing();
             house.surge(0, 1);
-            released(house, 0, Given.share(0, 50), Given.await(99));
+            Given.released(house, 0, Given.share(0, 50), Given.await(99));
             house.pass(1);
             int hotfix = house.release(Given.hotfix(house, 0), Given.program(house, Given.share(0, 51)));
             Check.same("two for one", house.why(hotfix), 5);
@@ -291,7 +304,7 @@ public final class WhyEdgesTest {
         });
         Check.test("14: 6 and 7, if the artefact is not live", () -> {
             ReleaseHouse house = new ReleaseHouse();
-            int kept = released(house, 1, Given.share(0, 5), Given.await(99));
+            int kept = Given.released(house, 1, Given.share(0, 5), Given.await(99));
             house.pass(1);
             int needy = house.release(house.artefact(0, 0, 0, 1, 1, 1, 0, false, true),
                     Given.program(house, Given.share(0, 5), Given.share(1, 5), Given.await(99)));
@@ -306,7 +319,7 @@ public final class WhyEdgesTest {
         Check.test("14: 8, as long as fewer minutes have gone by", () -> {
             for (int minutes : new int[] {1, 2, 200, 1000}) {
                 ReleaseHouse house = new ReleaseHouse();
-                int release = released(house, 0, Given.await(minutes), Given.await(0));
+                int release = Given.released(house, 0, Given.await(minutes), Given.await(0));
                 for (int left = minutes - 1; left > 0; left -= Math.min(left, 200)) {
                     house.pass(Math.min(left, 200));
                 }
@@ -317,14 +330,14 @@ public final class WhyEdgesTest {
         });
         Check.test("14: WAIT of 0 minutes", () -> {
             ReleaseHouse house = new ReleaseHouse();
-            int release = released(house, 0, Given.await(0), Given.await(0));
+            int release = Given.released(house, 0, Given.await(0), Given.await(0));
             Check.same("goes on at once", house.why(release), 0);
             house.pass(1);
             Check.same("and the next one", house.why(release), 0);
         });
         Check.test("14: since the step ahead was noted", () -> {
             ReleaseHouse house = new ReleaseHouse();
-            int release = released(house, 0, Given.approvals(1), Given.await(2), Given.await(0));
+            int release = Given.released(house, 0, Given.approvals(1), Given.await(2), Given.await(0));
             house.pass(50);
             house.approve(release, 1);
             house.pass(2);
@@ -338,16 +351,17 @@ public final class WhyEdgesTest {
         Check.test("14: since it began", () -> {
             ReleaseHouse house = new ReleaseHouse();
             house.pass(50);
-            int release = released(house, 0, Given.await(1));
+            int release = Given.released(house, 0, Given.await(1));
             Check.same("no minute", house.why(release), 8);
             house.pass(1);
             Check.same("one minute", house.state(release), 2);
         });
         Check.test("14: since it runs again", () -> {
             ReleaseHouse house = new ReleaseHouse();
-            int release = released(house, 0, Given.await(3), Given.share(0, 5), Given.await(99));
+            int release = Given.released(house, 0, Given.await(3), Given.share(0, 5), Given.await(99));
             house.pass(4);
-            int hotfix = house.release(Given.hotfix(house, 0), Given.program(house, Given.share(0, 5), Given.await(99)));
+            int hotfix = house.release(Given.hotfix(house, 0),
+                    Given.program(house, Given.share(0, 5), Given.await(99)));
             house.pass(7);
             house.stop(hotfix);
             Check.same("no minute", house.why(release), 8);
@@ -360,7 +374,7 @@ public final class WhyEdgesTest {
     /** A stable artefact, and a release at a JUDGE of the ring 0, with its candidate there. */
     private static ReleaseHouse withCanary() {
         ReleaseHouse house = withStable();
-        released(house, 0, Given.share(0, 50), Given.judge(0), Given.await(99));
+        Given.released(house, 0, Given.share(0, 50), Given.judge(0), Given.await(99));
         house.pass(1);
         return house;
     }
@@ -392,14 +406,14 @@ public final class WhyEdgesTest {
             ReleaseHouse house = withCanary();
             Given.measures(house, 20, true, false, 1);
             Given.measures(house, 20, false, false, 1);
-            int foreign = released(house, 0, Given.judge(0));
+            int foreign = Given.released(house, 0, Given.judge(0));
             Check.same("another one is, and good", house.why(foreign), 9);
             int own = house.release(0, Given.program(house, Given.judge(0)));
             Check.same("it is the stable one", house.why(own), 9);
-            int nowhere = released(house, 1, Given.judge(2));
+            int nowhere = Given.released(house, 1, Given.judge(2));
             Check.same("none is", house.why(nowhere), 9);
             ReleaseHouse elsewhere = withStable();
-            released(elsewhere, 0, Given.share(1, 5), Given.judge(0));
+            Given.released(elsewhere, 0, Given.share(1, 5), Given.judge(0));
             elsewhere.pass(1);
             Check.same("it is in another ring", elsewhere.why(1), 9);
         });
@@ -409,7 +423,7 @@ public final class WhyEdgesTest {
         Check.test("14: 10, as long as fewer people have approved the release", () -> {
             for (int people = 1; people <= 5; people++) {
                 ReleaseHouse house = new ReleaseHouse();
-                int release = released(house, 0, Given.approvals(people));
+                int release = Given.released(house, 0, Given.approvals(people));
                 for (int person = 1; person < people; person++) {
                     house.approve(release, person);
                 }
@@ -420,11 +434,11 @@ public final class WhyEdgesTest {
         });
         Check.test("14: APPROVE by 0 people", () -> {
             ReleaseHouse house = new ReleaseHouse();
-            Check.same("goes on", house.why(released(house, 0, Given.approvals(0))), 0);
+            Check.same("goes on", house.why(Given.released(house, 0, Given.approvals(0))), 0);
         });
         Check.test("14: more people than it takes", () -> {
             ReleaseHouse house = new ReleaseHouse();
-            int release = released(house, 0, Given.approvals(1));
+            int release = Given.released(house, 0, Given.approvals(1));
             house.approve(release, 1);
             house.approve(release, 5);
             Check.same("goes on", house.why(release), 0);
@@ -434,7 +448,7 @@ public final class WhyEdgesTest {
     private static void train() {
         Check.test("14: 11, until a train has taken it", () -> {
             ReleaseHouse house = new ReleaseHouse();
-            int release = released(house, 0, Given.byTrain(), Given.await(0));
+            int release = Given.released(house, 0, Given.byTrain(), Given.await(0));
             Check.same("none", house.why(release), 11);
             house.train(2);
             house.board(0, release);
@@ -447,16 +461,31 @@ public final class WhyEdgesTest {
         });
         Check.test("14: since it came to this step the last time", () -> {
             ReleaseHouse house = new ReleaseHouse();
-            int release = released(house, 0, Given.byTrain(), Given.byTrain(), Given.await(99));
+            int release = Given.released(house, 0, Given.byTrain(), Given.byTrain(), Given.await(99));
             house.train(1);
             house.board(0, release);
             house.pass(1);
             Check.same("the next one is another step", house.at(release), 1);
             Check.same("that train was for the first one", house.why(release), 11);
         });
+        Check.test("14: since it came to this step the last time, running again", () -> {
+            ReleaseHouse house = new ReleaseHouse();
+            int release = Given.released(house, 0, Given.byTrain(),
+                    Given.share(0, 5), Given.byTrain(), Given.await(99));
+            house.train(1);
+            house.board(0, release);
+            house.pass(2);
+            house.release(Given.hotfix(house, 0), Given.program(house, Given.share(0, 5)));
+            house.train(3);
+            house.board(1, release);
+            house.pass(1);
+            Check.same("taken, ahead of what overtakes it and is done", house.taken(1), 1);
+            Check.same("from its first step", house.at(release), 0);
+            Check.same("for which no train has taken it", house.why(release), 11);
+        });
         Check.test("14: one that left ahead of the step is none of these", () -> {
             ReleaseHouse house = new ReleaseHouse();
-            int release = released(house, 0, Given.await(0), Given.byTrain());
+            int release = Given.released(house, 0, Given.await(0), Given.byTrain());
             house.train(1);
             house.board(0, release);
             house.pass(1);
@@ -471,7 +500,7 @@ public final class WhyEdgesTest {
             ReleaseHouse house = withStable();
             house.begin(0, 0);
             house.begin(0, 190);
-            int release = released(house, 0, Given.promote(0), Given.drain(0), Given.await(0));
+            int release = Given.released(house, 0, Given.promote(0), Given.drain(0), Given.await(0));
             house.pass(1);
             Check.same("two", house.why(release), 12);
             house.end(0, 0);
@@ -492,13 +521,13 @@ public final class WhyEdgesTest {
             house.release(Given.easy(house, 0), both);
             house.release(Given.easy(house, 1), both);
             house.pass(2);
-            Check.same("none in the ring 0", house.why(released(house, 0, Given.drain(0))), 0);
-            Check.same("one in the ring 1", house.why(released(house, 0, Given.drain(1))), 12);
-            Check.same("one of the other service", house.why(released(house, 1, Given.drain(0))), 12);
+            Check.same("none in the ring 0", house.why(Given.released(house, 0, Given.drain(0))), 0);
+            Check.same("one in the ring 1", house.why(Given.released(house, 0, Given.drain(1))), 12);
+            Check.same("one of the other service", house.why(Given.released(house, 1, Given.drain(0))), 12);
         });
         Check.test("14: each session, if there is no stable one", () -> {
             ReleaseHouse house = new ReleaseHouse();
-            int release = released(house, 0, Given.share(2, 100), Given.drain(2), Given.await(0));
+            int release = Given.released(house, 0, Given.share(2, 100), Given.drain(2), Given.await(0));
             house.pass(1);
             Check.same("none", house.why(release), 0);
             house.begin(0, 199);
@@ -506,7 +535,7 @@ public final class WhyEdgesTest {
         });
         Check.test("14: one with the candidate is one with another artefact", () -> {
             ReleaseHouse house = withStable();
-            int release = released(house, 0, Given.share(0, 100), Given.drain(0), Given.await(0));
+            int release = Given.released(house, 0, Given.share(0, 100), Given.drain(0), Given.await(0));
             house.pass(1);
             house.begin(0, 0);
             Check.same("of this release", house.why(release), 12);
@@ -516,7 +545,7 @@ public final class WhyEdgesTest {
     private static void order() {
         Check.test("14: 1 for a release that is overtaken", () -> {
             ReleaseHouse house = new ReleaseHouse();
-            int release = released(house, 0, Given.share(0, 5), Given.await(0));
+            int release = Given.released(house, 0, Given.share(0, 5), Given.await(0));
             house.pass(1);
             house.release(Given.hotfix(house, 0), Given.program(house, Given.share(0, 5), Given.await(0)));
             house.die(false);
@@ -528,8 +557,8 @@ public final class WhyEdgesTest {
         });
         Check.test("14: 14 goes ahead of 13, that ahead of 1", () -> {
             ReleaseHouse house = new ReleaseHouse();
-            int done = released(house, 1, Given.await(0));
-            int release = released(house, 0, Given.share(0, 5), Given.await(9));
+            int done = Given.released(house, 1, Given.await(0));
+            int release = Given.released(house, 0, Given.share(0, 5), Given.await(9));
             house.pass(1);
             int hotfix = house.release(Given.hotfix(house, 0), Given.program(house, Given.share(0, 5), Given.await(9)));
             house.die(true);
