@@ -48,7 +48,7 @@ public final class ReleaseHouse {
     private static final int PLACES_OF_CANDIDATES = 4;
     private static final int SMALL_SHARE = 50;
     private static final int MINUTES_TO_STALE = 500;
-    private static final double CAPITAL_TO_REJECT = 20.0;
+    private static final int CAPITAL_TO_REJECT = 20;
     private static final int MEASURES_TO_COMPARE = 10;
     private static final int PAIRS_TO_ACCEPT = 20;
 
