@@ -412,7 +412,9 @@ public final class CanaryEdgesTest {
             Check.same("of the candidate", house.badPart(0, 0, true), 1.0f);
         });
         Check.test("37: how many are, as a float, divided by how many there are", () -> {
-            int[][] rows = {{0, 1}, {1, 1}, {1, 3}, {2, 3}, {1, 7}, {10, 30}, {1, 49}, {48, 49}};
+            int[][] rows = {
+                {0, 1}, {1, 1}, {1, 3}, {2, 3}, {1, 7}, {3, 7}, {5, 6}, {9, 11}, {10, 30}, {1, 49}, {48, 49},
+            };
             for (int[] row : rows) {
                 for (int way = 0; way < 2; way++) {
                     ReleaseHouse house = withCanary();

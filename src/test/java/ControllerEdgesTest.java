@@ -308,6 +308,14 @@ public final class ControllerEdgesTest {
             Check.yes("one would have", house.isDead());
             Check.same("it has not", house.at(waiting), 0);
         });
+        Check.test("16: or the same way once more", () -> {
+            ReleaseHouse house = new ReleaseHouse();
+            Given.released(house, 0, Given.promote(0));
+            house.die(true);
+            house.die(true);
+            house.pass(1);
+            Check.same("effects", house.effects(), 1);
+        });
         Check.test("16: ahead of the effect", () -> {
             ReleaseHouse house = withDead(false);
             Check.same("none", house.effects(), 0);
@@ -445,6 +453,34 @@ public final class ControllerEdgesTest {
                 Check.same("it goes on", house.pass(1), 2);
                 Check.no("dead", house.isDead());
             }
+        });
+        Check.test("17: what it was told by others stays, and is told while none is alive", () -> {
+            ReleaseHouse house = withDead(false);
+            int release = Given.released(house, 2, Given.approvals(2), Given.share(0, 5), Given.byTrain());
+            house.approve(release, 1);
+            house.approve(release, 2);
+            house.except(release, 1);
+            house.freeze(0, 0, 20000, 3);
+            house.hold(3);
+            house.train(4);
+            house.board(0, release);
+            house.rise();
+            Check.badState("excepted", () -> house.except(release, 1));
+            Check.same("approved, and not frozen", house.pass(2), 2);
+            Check.same("held", house.why(Given.released(house, 3, Given.share(0, 5))), 2);
+            Check.same("on board", house.pass(1), 1);
+        });
+        Check.test("17: measures are taken while none is alive", () -> {
+            ReleaseHouse house = new ReleaseHouse();
+            Given.stable(house, 0, Given.program(house, Given.promote(0)));
+            int release = Given.released(house, 0, Given.share(0, 5), Given.judge(0), Given.await(9));
+            house.die(true);
+            house.pass(1);
+            Given.measures(house, 8, true, true, 1);
+            Given.measures(house, 8, false, false, 1);
+            house.rise();
+            Check.same("the step that was not noted, and the stop", house.pass(2), 2);
+            Check.same("stopped", house.state(release), 3);
         });
         Check.test("18: tells whether the controller is dead", () -> {
             ReleaseHouse house = new ReleaseHouse();

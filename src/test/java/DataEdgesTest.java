@@ -306,6 +306,15 @@ public final class DataEdgesTest {
             Check.same("the candidates, one and two, one and two and stable", house.units(3, 6), 1 + 2 + 3 + 3);
             Check.same("the stable one, in three and two rings", house.units(3, 7), 9 + 3 + 3 + 3 + 2 + 2);
         });
+        Check.test("32: a unit each, be it of the same schema", () -> {
+            ReleaseHouse house = new ReleaseHouse();
+            Given.stable(house, 0, Given.program(house, Given.promote(0)));
+            released(house, Given.easy(house, 0), Given.share(0, 5));
+            house.pass(1);
+            Check.same("the stable one", house.units(0, 0), 1);
+            house.pass(1);
+            Check.same("and the candidate", house.units(0, 0), 3);
+        });
         Check.test("32: of the schema that it writes, of its service", () -> {
             ReleaseHouse house = withAllOpen();
             released(house, Given.withData(house, 3, 255, 7), Given.promote(0));

@@ -205,9 +205,9 @@ public final class FlagEdgesTest {
             ReleaseHouse house = new ReleaseHouse();
             house.target(0, 2, true, 1, 1);
             house.setPlan(100, 1);
-            Check.yes("this one", house.isOn(0, 100));
-            Check.no("the one below", house.isOn(0, 99));
-            Check.no("the one above", house.isOn(0, 101));
+            for (int customer = 0; customer < 200; customer++) {
+                Check.yes("this one alone, customer " + customer, house.isOn(0, customer) == (customer == 100));
+            }
         });
     }
 
@@ -317,6 +317,13 @@ public final class FlagEdgesTest {
             house.kill(3);
             house.experiment(0, 4, 0, 99, 2);
             house.arm(0, 0);
+            Check.same("all are stale", house.stale(), 255);
+        });
+        Check.test("55: does not ask for its flag as isOn() does", () -> {
+            ReleaseHouse house = withExperiment(0, 0, 99, 2);
+            Given.goOn(house, 500);
+            Check.same("one who is in it", house.arm(0, 0), 0);
+            house.conclude(0);
             Check.same("all are stale", house.stale(), 255);
         });
     }

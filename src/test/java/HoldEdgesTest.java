@@ -29,6 +29,16 @@ public final class HoldEdgesTest {
             }
             Check.yes("held again", house.hold(0));
         });
+        Check.test("38: holds hotfixes, configuration, and what is excepted, too", () -> {
+            for (int kind = 0; kind < 4; kind++) {
+                ReleaseHouse house = new ReleaseHouse();
+                house.artefact(0, 0, 0, 0, NONE, 1, 0, kind >= 2, kind % 2 == 0);
+                house.release(0, Given.program(house, Given.promote(0)));
+                house.except(0, 1);
+                house.hold(0);
+                Check.same("hotfix " + (kind >= 2) + ", code " + (kind % 2 == 0), house.why(0), 2);
+            }
+        });
         Check.test("38: what is there stays while it is held", () -> {
             ReleaseHouse house = new ReleaseHouse();
             int release = Given.released(house, 0, Given.share(0, 5), Given.await(9));
@@ -113,6 +123,14 @@ public final class HoldEdgesTest {
             }
             house.freeze(2, 0, 0, 1);
             Check.same("the eighth", house.why(0), 3);
+            for (int one = 0; one < 8; one++) {
+                ReleaseHouse other = new ReleaseHouse();
+                for (int i = 0; i < 8; i++) {
+                    other.freeze(2, 0, 0, i == one ? 3 : 2);
+                }
+                other.release(Given.hotfix(other, 0), Given.program(other, Given.promote(2)));
+                Check.same("the one of eight that holds for it, " + one, other.why(0), 3);
+            }
         });
         Check.test("39: 1 for code that is no hotfix, 2 for all that are no hotfixes, 3 for all", () -> {
             int[][] rows = {{1, 3, 0, 0, 0}, {2, 3, 3, 0, 0}, {3, 3, 3, 3, 3}};
@@ -204,6 +222,7 @@ public final class HoldEdgesTest {
             Check.same("that is no end", house.state(hotfix), 0);
             house.stop(hotfix);
             Check.same("goes on", house.why(0), 0);
+            Check.same("all three are", house.except(1, 0), 3);
         });
         Check.test("40: one that is overtaken has not ended", () -> {
             ReleaseHouse house = new ReleaseHouse();
@@ -302,6 +321,23 @@ public final class HoldEdgesTest {
             house.surge(0, 2);
             Check.same("none more", house.left(0), 0);
         });
+        Check.test("43: as many as may be taken, and none there", () -> {
+            ReleaseHouse house = new ReleaseHouse();
+            house.surge(0, 4);
+            int program = Given.program(house, Given.promote(0));
+            int sharing = Given.program(house, Given.share(0, 100));
+            for (int service = 0; service < 4; service++) {
+                Given.stable(house, service, program);
+                house.release(Given.easy(house, service), sharing);
+            }
+            house.pass(1);
+            Check.same("all are taken", house.left(0), 0);
+            house.surge(0, 0);
+            for (int zone = 0; zone < 3; zone++) {
+                house.zone(0, zone);
+            }
+            Check.same("none is there", house.left(0), -16);
+        });
         Check.test("43: a session takes no place", () -> {
             ReleaseHouse house = new ReleaseHouse();
             int release = Given.released(house, 0, Given.share(0, 100), Given.await(9));
@@ -363,6 +399,14 @@ public final class HoldEdgesTest {
             ReleaseHouse house = withBoarding();
             Check.same("one", house.board(0, 1), 1);
             Check.same("two", house.board(0, 0), 2);
+        });
+        Check.test("45: nothing tells that one that has ended leaves it", () -> {
+            ReleaseHouse house = withBoarding();
+            house.board(0, 1);
+            house.stop(1);
+            Check.same("both are on board", house.board(0, 0), 2);
+            house.pass(3);
+            Check.same("one is taken", house.taken(0), 1);
         });
         Check.test("45: from another one, if it is on board of that", () -> {
             ReleaseHouse house = withBoarding();

@@ -370,6 +370,34 @@ public final class ReleaseEdgesTest {
             Check.same("the ring 0 goes back", house.stable(0, 0), 0);
             Check.same("the ring 2 stays", house.stable(0, 2), 2);
         });
+        Check.test("11: for each ring, by rising numbers", () -> {
+            ReleaseHouse house = new ReleaseHouse();
+            house.expand(0, 1);
+            house.expand(0, 2);
+            Given.withData(house, 0, 7, 0);
+            Given.withData(house, 0, 6, 1);
+            Given.withData(house, 0, 7, 2);
+            house.release(0, Given.program(house, Given.promote(0)));
+            int release = house.release(2, Given.program(house, Given.promote(0), Given.promote(1), Given.await(99)));
+            house.release(1, Given.program(house, Given.promote(1)));
+            house.pass(2);
+            Check.same("the one ahead in the ring 1 may not live with that in the ring 0", house.forbids(1, 0), 1);
+            Check.same("which comes first", house.stop(release), 1);
+            Check.same("the ring 0 goes back", house.stable(0, 0), 0);
+            Check.same("the ring 1 is stuck", house.stable(0, 1), 2);
+        });
+        Check.test("11: one that is overtaken goes back, too", () -> {
+            ReleaseHouse house = new ReleaseHouse();
+            Given.stable(house, 0, Given.program(house, Given.promote(0)));
+            int release = Given.released(house, 0, Given.promote(0), Given.share(1, 5), Given.await(99));
+            house.pass(2);
+            house.release(Given.hotfix(house, 0), Given.program(house, Given.share(1, 5), Given.await(99)));
+            house.pass(1);
+            Check.same("overtaken", house.state(release), 1);
+            Check.same("what it has made stable stays", house.stable(0, 0), 1);
+            Check.same("stopped", house.stop(release), 0);
+            Check.same("stable again", house.stable(0, 0), 0);
+        });
         Check.test("11: a candidate there stays", () -> {
             ReleaseHouse house = withSecond(1);
             house.release(Given.easy(house, 0), Given.program(house, Given.share(1, 77)));
@@ -549,6 +577,15 @@ public final class ReleaseEdgesTest {
             house.pass(1);
             Check.same("one that is no hotfix has ended", house.state(0), 1);
         });
+        Check.test("12: ended while the controller is dead", () -> {
+            ReleaseHouse house = withOvertaken();
+            Given.released(house, 1, Given.await(0));
+            house.die(false);
+            house.pass(1);
+            house.stop(1);
+            Check.same("runs again", house.state(0), 0);
+            Check.same("the next controller has two", house.rise(), 2);
+        });
         Check.test("12: ended by a stop, or skipped", () -> {
             ReleaseHouse house = withOvertaken();
             house.stop(1);
@@ -566,11 +603,12 @@ public final class ReleaseEdgesTest {
         });
         Check.test("12: skipped, it loses its candidates, in all rings, and nothing else", () -> {
             ReleaseHouse house = new ReleaseHouse();
+            Given.stable(house, 0, Given.program(house, Given.promote(1)));
             int older = Given.easy(house, 0);
             Given.stable(house, 0, Given.program(house, Given.promote(2)));
             house.release(older, Given.program(house, Given.promote(1), Given.share(0, 10), Given.share(2, 10)));
             house.pass(3);
-            Check.same("skipped", house.state(1), 4);
+            Check.same("skipped", house.state(2), 4);
             Check.same("its candidate", house.candidate(0, 0), NONE);
             Check.same("what it has made stable stays", house.stable(0, 1), older);
         });

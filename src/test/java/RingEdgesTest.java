@@ -387,6 +387,18 @@ public final class RingEdgesTest {
             Check.same("newer than that one", house.wayOut(0, 1), 4);
             Check.same("no stable one in another ring", house.wayOut(0, 0), NONE);
         });
+        Check.test("27: be it held, frozen or full", () -> {
+            ReleaseHouse house = withStable(0);
+            int newer = Given.easy(house, 0);
+            house.hold(0);
+            for (int ring = 0; ring < 3; ring++) {
+                house.freeze(ring, 0, 20000, 3);
+                house.zone(ring, 0);
+                house.zone(ring, 1);
+                house.zone(ring, 2);
+            }
+            Check.same("the way out", house.wayOut(0, 2), newer);
+        });
         Check.test("27: and may go live or are live", () -> {
             ReleaseHouse house = withStable(0);
             int kept = Given.released(house, 1, Given.share(0, 5), Given.await(99));

@@ -416,6 +416,10 @@ public final class WhyEdgesTest {
             Given.released(elsewhere, 0, Given.share(1, 5), Given.judge(0));
             elsewhere.pass(1);
             Check.same("it is in another ring", elsewhere.why(1), 9);
+            ReleaseHouse bad = withCanary();
+            Given.measures(bad, 8, true, true, 1);
+            Given.measures(bad, 8, false, false, 1);
+            Check.same("another one is, and bad", bad.why(Given.released(bad, 0, Given.judge(0))), 9);
         });
     }
 
@@ -483,6 +487,18 @@ public final class WhyEdgesTest {
             Check.same("from its first step", house.at(release), 0);
             Check.same("for which no train has taken it", house.why(release), 11);
         });
+        Check.test("14: one that it boards behind that is no matter", () -> {
+            ReleaseHouse house = new ReleaseHouse();
+            int release = Given.released(house, 0, Given.byTrain(), Given.await(0));
+            house.train(1);
+            house.train(9);
+            house.board(0, release);
+            house.die(false);
+            house.pass(1);
+            Check.same("on board of the next one", house.board(1, release), 1);
+            house.rise();
+            Check.same("taken by the first one still", house.why(release), 0);
+        });
         Check.test("14: one that left ahead of the step is none of these", () -> {
             ReleaseHouse house = new ReleaseHouse();
             int release = Given.released(house, 0, Given.await(0), Given.byTrain());
@@ -532,6 +548,8 @@ public final class WhyEdgesTest {
             Check.same("none", house.why(release), 0);
             house.begin(0, 199);
             Check.same("one with its own candidate", house.why(release), 12);
+            Check.same("none of another ring", house.why(Given.released(house, 0, Given.drain(0))), 0);
+            Check.same("none of another service", house.why(Given.released(house, 1, Given.drain(2))), 0);
         });
         Check.test("14: one with the candidate is one with another artefact", () -> {
             ReleaseHouse house = withStable();
